@@ -1,0 +1,56 @@
+import java.util.function.IntSupplier;
+
+/** Compares answers with those that are due, prints what is wrong, and ends with 1 if anything was. */
+final class Check {
+    static final String ARGUMENT = "IllegalArgumentException";
+    static final String STATE = "IllegalStateException";
+    static final String INDEX = "IndexOutOfBoundsException";
+
+    private static int wrong = 0;
+    private static int count = 0;
+
+    private Check() {
+    }
+
+    static void same(String what, long got, long due) {
+        count++;
+        if (got != due) {
+            wrong++;
+            if (wrong <= 50) {
+                System.out.println(what + " answered " + got + ", due is " + due);
+            }
+        }
+    }
+
+    static void yes(String what, boolean holds) {
+        same(what, holds ? 1 : 0, 1);
+    }
+
+    static void refuses(String what, String exception, IntSupplier call) {
+        count++;
+        String thrown = "nothing";
+        try {
+            call.getAsInt();
+        } catch (RuntimeException e) {
+            thrown = e.getClass().getSimpleName();
+        }
+        if (!thrown.equals(exception)) {
+            wrong++;
+            System.out.println(what + " throws " + thrown + ", due is " + exception);
+        }
+    }
+
+    static void refuses(String what, String exception, Runnable call) {
+        refuses(what, exception, () -> {
+            call.run();
+            return 0;
+        });
+    }
+
+    static void end() {
+        System.out.println(wrong == 0 ? count + " answers are as due" : wrong + " of " + count + " answers are not as due");
+        if (wrong != 0) {
+            System.exit(1);
+        }
+    }
+}
