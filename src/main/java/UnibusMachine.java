@@ -331,10 +331,10 @@ public final class UnibusMachine {
         final Drive drive = new Drive();
 
         int peek(int address) {
-            if (address < 0 || address > 65535 || (address & 1) != 0) {
+            if ((address & 1) != 0) {
                 return NOTHING;
             }
-            if (address < MEMORY_END) {
+            if (address >= 0 && address < MEMORY_END) {
                 return memory[address >> 1];
             }
             if (address >= DESCRIPTORS && address < BASES) {
@@ -505,16 +505,15 @@ public final class UnibusMachine {
             if (waiting) {
                 return;
             }
-            vector = 0;
-            named = 0;
+            boolean stopped = false;
             try {
                 int word = readWord(mode(), registers[7]);
                 registers[7] = registers[7] + 2 & 65535;
                 execute(word);
             } catch (UnsupportedOperationException wrong) {
-                named = 0;
+                stopped = true;
             }
-            if (vector != 0) {
+            if (stopped) {
                 enter(vector);
             } else {
                 settle();

@@ -12,6 +12,7 @@ public final class MapTest {
         firstAbortStays();
         oddBeforeMap();
         readOnlyChange();
+        readOnlyOthers();
         user();
         modeBefore();
         fetchAborts();
@@ -133,6 +134,18 @@ public final class MapTest {
         Check.same("register 1 has grown", rig.r(1), 8192 + 102);
         Check.same("control", rig.device(Rig.CONTROL), 0x2000 | 1 << 1 | ON);
         Check.same("7 that is kept", rig.at(rig.r(6)), Rig.CODE + 5 * 6 + 2);
+    }
+
+    private static void readOnlyOthers() {
+        Rig rig = mapped().move(0x0101, descriptor(KERNEL, 1)).move(ON, Rig.CONTROL)
+                .then(05711, 0113702, 8192 + 100, 0105711, 0112711, 7).register(1, 8192 + 100).memory(100, 0x2941);
+        rig.run(5).run(3);
+        Check.same("TST, MOVB and TSTB only read", rig.r(7), Rig.CODE + 5 * 6 + 8);
+        Check.same("a byte that may be read", rig.r(2), 0x41);
+        rig.run(1);
+        Check.same("a byte that may not be written", rig.trappedBy(), 168);
+        Check.same("control", rig.device(Rig.CONTROL), 0x2000 | 1 << 1 | ON);
+        Check.same("memory", rig.at(100), 0x2941);
     }
 
     /** The user's page 0 has this descriptor and begins at 128; it starts at 0. */

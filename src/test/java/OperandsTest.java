@@ -7,6 +7,7 @@ public final class OperandsTest {
         byteModes();
         stackAndSeven();
         byteRegisters();
+        growByTwo();
         order();
         notRead();
         wrapping();
@@ -98,15 +99,26 @@ public final class OperandsTest {
         Check.same("MOVB of 128 to a register", rig.r(0), 0xFF80);
         Check.same("MOVB of 127 to a register", rig.r(1), 0x7F);
         Check.same("MOVB of 0 to a register", rig.r(2), 0);
-        int[][] words = {{0105003, 0x1200}, {0105103, 0x12CB}, {0105203, 0x1235}, {0105303, 0x1233}, {0105403, 0x12CC},
-            {0105703, 0x1234}, {0106003, 0x121A}, {0106103, 0x1268}, {0106203, 0x121A}, {0106303, 0x1268}};
+        int[][] words = {{0105003, 0xFF00}, {0105103, 0xFFCB}, {0105203, 0xFF35}, {0105303, 0xFF33}, {0105403, 0xFFCC},
+            {0105703, 0xFF34}, {0106003, 0xFF1A}, {0106103, 0xFF68}, {0106203, 0xFF1A}, {0106303, 0xFF68}};
         for (int[] word : words) {
-            Rig one = Rig.with(word[0]).register(3, 0x1234).run(1);
+            Rig one = Rig.with(word[0]).register(3, 0xFF34).run(1);
             Check.same("register 3 behind " + Integer.toOctalString(word[0]), one.r(3), word[1]);
         }
         Rig joined = Rig.with(0142703, 0xFF30, 0152703, 0xFF81, 0110304).register(3, 0x1234).run(3);
         Check.same("BICB and BISB of a register", joined.r(3), 0x1285);
         Check.same("MOVB from a register", joined.r(4), 0xFF85);
+    }
+
+    private static void growByTwo() {
+        for (int word : new int[] {070221, 074021, 0321, 06521, 06621, 06721, 0121, 04021, 05021, 010021, 0160021}) {
+            Rig rig = Rig.with(word).register(1, DATA).run(1);
+            Check.same("register 1 behind " + Integer.toOctalString(word), rig.r(1), DATA + 2);
+        }
+        Rig xor = Rig.with(074511).register(5, 0x0FF0).register(1, DATA).memory(DATA, 0x5555).run(1);
+        Check.same("XOR with register 5", xor.at(DATA), 0x5AA5);
+        Rig product = Rig.with(070122).register(1, 3).register(2, DATA).memory(DATA, 7).run(1);
+        Check.same("MUL (R2)+, R1", product.r(1), 21);
     }
 
     private static void order() {
