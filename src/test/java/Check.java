@@ -8,8 +8,25 @@ final class Check {
 
     private static int wrong = 0;
     private static int count = 0;
+    private static int sentences = 0;
+    private static int wrongBefore = 0;
+    private static String about = "";
 
     private Check() {
+    }
+
+    /** What comes now is about this sentence of the document; what was before it is told, when it was broken. */
+    static void sentence(String text) {
+        tellBroken();
+        sentences++;
+        about = text;
+        wrongBefore = wrong;
+    }
+
+    private static void tellBroken() {
+        if (!about.isEmpty() && wrong != wrongBefore) {
+            System.out.println("BROKEN: " + about);
+        }
     }
 
     static void same(String what, long got, long due) {
@@ -48,6 +65,10 @@ final class Check {
     }
 
     static void end() {
+        tellBroken();
+        if (sentences > 0) {
+            System.out.println(sentences + " sentences");
+        }
         System.out.println(wrong == 0 ? count + " answers are as due" : wrong + " of " + count + " answers are not as due");
         if (wrong != 0) {
             System.exit(1);

@@ -1,7 +1,7 @@
 /** The map: where an address goes, the three aborts, what control tells, the mode before. */
 public final class MapTest {
     private static final int ON = 1;
-    private static final int WHOLE = 0x7F02;
+    private static final int WHOLE = Rig.WHOLE;
     private static final int KERNEL = 0;
     private static final int USER = 1;
 
@@ -21,11 +21,11 @@ public final class MapTest {
     }
 
     private static int descriptor(int mode, int page) {
-        return 57344 + 16 * mode + 2 * page;
+        return Rig.descriptor(mode, page);
     }
 
     private static int base(int mode, int page) {
-        return 57376 + 16 * mode + 2 * page;
+        return Rig.base(mode, page);
     }
 
     private static void registers() {
@@ -41,10 +41,8 @@ public final class MapTest {
         Check.same("control that is read", rig.r(0), 0xE01E);
     }
 
-    /** The kernel's page 0 is memory itself, page 7 the devices. */
     private static Rig mapped() {
-        return Rig.with().vectors().move(WHOLE, descriptor(KERNEL, 0)).move(WHOLE, descriptor(KERNEL, 7))
-                .move(896, base(KERNEL, 7));
+        return Rig.mapped();
     }
 
     private static void places() {

@@ -25,8 +25,14 @@ final class Rig {
     static final int MOVE_BYTE = 0112737;
     static final int CLEAR = 05037;
 
+    /** A descriptor: all blocks, to be read and written. */
+    static final int WHOLE = 0x7F02;
+    /** A status: user mode, priority 0. */
+    static final int USER = 0x4000;
+
     final UnibusMachine machine = new UnibusMachine();
     private int end = CODE;
+    private int moves = 0;
 
     private Rig() {
     }
@@ -48,7 +54,39 @@ final class Rig {
     }
 
     Rig move(int value, int address) {
+        moves++;
         return then(MOVE, value, address);
+    }
+
+    /** Does the moves that were put since the last time; nothing else may stand between them. */
+    Rig moved() {
+        int n = moves;
+        moves = 0;
+        return runs(n);
+    }
+
+    static int descriptor(int mode, int page) {
+        return 57344 + 16 * mode + 2 * page;
+    }
+
+    static int base(int mode, int page) {
+        return 57376 + 16 * mode + 2 * page;
+    }
+
+    /** Page p of a mode has this descriptor and begins at this block of 64. */
+    Rig page(int mode, int page, int descriptor, int base) {
+        return move(descriptor, descriptor(mode, page)).move(base, base(mode, page));
+    }
+
+    /** The kernel's page 0 is memory itself, page 7 the devices; the map is not on yet. */
+    static Rig mapped() {
+        return with().vectors().move(WHOLE, descriptor(0, 0)).page(0, 7, WHOLE, 896);
+    }
+
+    /** In user mode behind its moves, with its own stack there. */
+    static Rig user(int stack, int... words) {
+        Rig rig = with().vectors().move(USER, STATUS).moved().then(012706, stack).run(1);
+        return rig.then(words);
     }
 
     Rig register(int r, int value) {
