@@ -7,53 +7,92 @@ public final class BoundaryCallsTest {
         57344, 57408, 57470, 65534, 65535, 65536, 65538, GREATEST, GREATEST - 1};
 
     public static void main(String[] args) {
-        newObject();
-        newDevices();
-        newIsHalted();
-        deposit();
-        depositAddress();
-        depositValue();
-        examine();
-        examineAddress();
-        set();
-        setRegister();
-        setValue();
-        setKernelStack();
-        register();
-        registerNone();
-        start();
-        startAddress();
-        startMode();
-        startNotHalted();
-        startNotWaiting();
-        run();
-        runUntilHalt();
-        runWaits();
-        runCount();
-        runHalted();
-        key();
-        keyNone();
-        keyInPlace();
-        printedNone();
-        printedLatest();
-        printedRange();
-        load();
-        loadRefused();
-        disk();
-        diskRefused();
-        device();
-        deviceMissing();
-        deviceChangesNothing();
-        state();
-        stateWrongTrap();
-        manyCalls();
+        Check.sentence("1: All is 0",
+                BoundaryCallsTest::newObject);
+        Check.sentence("1: the map is off, kernel; printer and disk are ready",
+                BoundaryCallsTest::newDevices);
+        Check.sentence("1: halted",
+                BoundaryCallsTest::newIsHalted);
+        Check.sentence("2: Writes a word of memory",
+                BoundaryCallsTest::deposit);
+        Check.sentence("2: IllegalArgumentException: there is no such address",
+                BoundaryCallsTest::depositAddress);
+        Check.sentence("2: IllegalArgumentException: value is not 0 .. 65535",
+                BoundaryCallsTest::depositValue);
+        Check.sentence("3: A word of memory",
+                BoundaryCallsTest::examine);
+        Check.sentence("3: IllegalArgumentException: there is no such address",
+                BoundaryCallsTest::examineAddress);
+        Check.sentence("4: Sets a register",
+                BoundaryCallsTest::set);
+        Check.sentence("4: IllegalArgumentException: there is none",
+                BoundaryCallsTest::setRegister);
+        Check.sentence("4: IllegalArgumentException: value is not 0 .. 65535",
+                BoundaryCallsTest::setValue);
+        Check.sentence("4: (6 of the kernel)",
+                BoundaryCallsTest::setKernelStack);
+        Check.sentence("5: 8 is the status, 9 the stack's register of the other mode; 6 of the mode that there is",
+                BoundaryCallsTest::register);
+        Check.sentence("5: IllegalArgumentException: there is none",
+                BoundaryCallsTest::registerNone);
+        Check.sentence("6: Starts at an address",
+                BoundaryCallsTest::start);
+        Check.sentence("6: IllegalArgumentException: it is not 0 .. 65535",
+                BoundaryCallsTest::startAddress);
+        Check.sentence("6: in kernel mode with status 224",
+                BoundaryCallsTest::startMode);
+        Check.sentence("6: not halted",
+                BoundaryCallsTest::startNotHalted);
+        Check.sentence("6: not waiting",
+                BoundaryCallsTest::startNotWaiting);
+        Check.sentence("7: So many instructions (1 .. 40)",
+                BoundaryCallsTest::run);
+        Check.sentence("7: or until it halts: how many were done",
+                BoundaryCallsTest::runUntilHalt);
+        Check.sentence("7: (those of WAIT, too)",
+                BoundaryCallsTest::runWaits);
+        Check.sentence("7: IllegalArgumentException: n is not so",
+                BoundaryCallsTest::runCount);
+        Check.sentence("7: IllegalStateException: it is halted",
+                BoundaryCallsTest::runHalted);
+        Check.sentence("8: A character (8 bits) comes from the keyboard",
+                BoundaryCallsTest::key);
+        Check.sentence("8: IllegalArgumentException: it is none",
+                BoundaryCallsTest::keyNone);
+        Check.sentence("8: in place of one that was not read",
+                BoundaryCallsTest::keyInPlace);
+        Check.sentence("9: How many characters were printed (k = -1); IndexOutOfBoundsException: there is none",
+                BoundaryCallsTest::printedNone);
+        Check.sentence("9: the one that was printed k-th latest (0 .. 31)",
+                BoundaryCallsTest::printedLatest);
+        Check.sentence("9: IndexOutOfBoundsException: there is none, for every k but -1 .. 31",
+                BoundaryCallsTest::printedRange);
+        Check.sentence("10: Writes a word of the disk",
+                BoundaryCallsTest::load);
+        Check.sentence("10: IllegalArgumentException: sector is not 0 .. 7, word not 0 .. 15, or value no word",
+                BoundaryCallsTest::loadRefused);
+        Check.sentence("11: A word of the disk",
+                BoundaryCallsTest::disk);
+        Check.sentence("11: IllegalArgumentException: as for load",
+                BoundaryCallsTest::diskRefused);
+        Check.sentence("12: A device register as a program would read it",
+                BoundaryCallsTest::device);
+        Check.sentence("12: -1 when it is missing",
+                BoundaryCallsTest::deviceMissing);
+        Check.sentence("12: but nothing changes",
+                BoundaryCallsTest::deviceChangesNothing);
+        Check.sentence("13: 0 it runs, 1 it waits, 2 it is halted by HALT or was never started",
+                BoundaryCallsTest::state);
+        Check.sentence("13: 3 by something wrong in a trap",
+                BoundaryCallsTest::stateWrongTrap);
+        Check.sentence("An object is used for at most 512 calls",
+                BoundaryCallsTest::manyCalls);
         Check.end();
     }
 
     // Promise 1.
 
     private static void newObject() {
-        Check.sentence("1: All is 0");
         UnibusMachine m = new UnibusMachine();
         for (int address = 0; address <= 1022; address += 2) {
             Check.same("examine(" + address + ")", m.examine(address), 0);
@@ -76,7 +115,6 @@ public final class BoundaryCallsTest {
     }
 
     private static void newDevices() {
-        Check.sentence("1: the map is off, kernel; printer and disk are ready");
         UnibusMachine m = new UnibusMachine();
         Check.same("control", m.device(Rig.CONTROL), 0);
         Check.same("status", m.device(Rig.STATUS), 0);
@@ -86,7 +124,6 @@ public final class BoundaryCallsTest {
     }
 
     private static void newIsHalted() {
-        Check.sentence("1: halted");
         UnibusMachine m = new UnibusMachine();
         Check.same("state", m.state(), 2);
         Check.refuses("run(1)", Check.STATE, () -> m.run(1));
@@ -96,7 +133,6 @@ public final class BoundaryCallsTest {
     // Promises 2 and 3.
 
     private static void deposit() {
-        Check.sentence("2: Writes a word of memory");
         for (int address : new int[] {0, 2, 510, 512, 1020, 1022}) {
             for (int value : new int[] {65535, 32768, 32767, 1, 0}) {
                 UnibusMachine m = new UnibusMachine();
@@ -110,7 +146,6 @@ public final class BoundaryCallsTest {
     }
 
     private static void depositAddress() {
-        Check.sentence("2: IllegalArgumentException: there is no such address");
         UnibusMachine m = new UnibusMachine();
         for (int address : NO_MEMORY) {
             Check.refuses("deposit(" + address + ", 7)", Check.ARGUMENT, () -> m.deposit(address, 7));
@@ -122,7 +157,6 @@ public final class BoundaryCallsTest {
     }
 
     private static void depositValue() {
-        Check.sentence("2: IllegalArgumentException: value is not 0 .. 65535");
         UnibusMachine m = new UnibusMachine();
         m.deposit(8, 5);
         for (int value : NO_WORD) {
@@ -136,7 +170,6 @@ public final class BoundaryCallsTest {
     }
 
     private static void examine() {
-        Check.sentence("3: A word of memory");
         UnibusMachine m = new UnibusMachine();
         m.deposit(0, 11);
         m.deposit(1022, 22);
@@ -146,7 +179,6 @@ public final class BoundaryCallsTest {
     }
 
     private static void examineAddress() {
-        Check.sentence("3: IllegalArgumentException: there is no such address");
         UnibusMachine m = new UnibusMachine();
         for (int address : NO_MEMORY) {
             Check.refuses("examine(" + address + ")", Check.ARGUMENT, () -> m.examine(address));
@@ -156,7 +188,6 @@ public final class BoundaryCallsTest {
     // Promises 4 and 5.
 
     private static void set() {
-        Check.sentence("4: Sets a register");
         for (int r = 0; r < 8; r++) {
             UnibusMachine m = new UnibusMachine();
             m.set(r, 65535);
@@ -167,7 +198,6 @@ public final class BoundaryCallsTest {
     }
 
     private static void setRegister() {
-        Check.sentence("4: IllegalArgumentException: there is none");
         UnibusMachine m = new UnibusMachine();
         for (int r : new int[] {LEAST, -8, -1, 8, 9, 10, 16, GREATEST}) {
             Check.refuses("set(" + r + ", 7)", Check.ARGUMENT, () -> m.set(r, 7));
@@ -178,7 +208,6 @@ public final class BoundaryCallsTest {
     }
 
     private static void setValue() {
-        Check.sentence("4: IllegalArgumentException: value is not 0 .. 65535");
         UnibusMachine m = new UnibusMachine();
         for (int r : new int[] {0, 6, 7}) {
             m.set(r, 3);
@@ -194,7 +223,6 @@ public final class BoundaryCallsTest {
     }
 
     private static void setKernelStack() {
-        Check.sentence("4: (6 of the kernel)");
         Rig rig = Rig.user(700).register(6, 444);
         Check.same("6 of the user", rig.r(6), 700);
         Check.same("6 of the kernel", rig.r(9), 444);
@@ -207,7 +235,6 @@ public final class BoundaryCallsTest {
     }
 
     private static void register() {
-        Check.sentence("5: 8 is the status, 9 the stack's register of the other mode; 6 of the mode that there is");
         Rig rig = Rig.user(700);
         Check.same("8", rig.r(8), Rig.USER);
         Check.same("9", rig.r(9), Rig.STACK);
@@ -220,7 +247,6 @@ public final class BoundaryCallsTest {
     }
 
     private static void registerNone() {
-        Check.sentence("5: IllegalArgumentException: there is none");
         UnibusMachine m = new UnibusMachine();
         for (int r : new int[] {LEAST, -8, -1, 10, 11, 16, GREATEST}) {
             Check.refuses("register(" + r + ")", Check.ARGUMENT, () -> m.register(r));
@@ -230,7 +256,6 @@ public final class BoundaryCallsTest {
     // Promise 6.
 
     private static void start() {
-        Check.sentence("6: Starts at an address");
         for (int address : new int[] {0, 1, 1022, 1023, 1024, 32768, 57344, 65534, 65535}) {
             UnibusMachine m = new UnibusMachine();
             m.start(address);
@@ -239,7 +264,6 @@ public final class BoundaryCallsTest {
     }
 
     private static void startAddress() {
-        Check.sentence("6: IllegalArgumentException: it is not 0 .. 65535");
         UnibusMachine m = new UnibusMachine();
         m.set(7, 9);
         for (int address : NO_WORD) {
@@ -254,7 +278,6 @@ public final class BoundaryCallsTest {
     }
 
     private static void startMode() {
-        Check.sentence("6: in kernel mode with status 224");
         Rig rig = Rig.user(700, 0277).run(1);
         Check.same("status before", rig.r(8), Rig.USER | 15);
         rig.machine.start(Rig.CODE);
@@ -267,7 +290,6 @@ public final class BoundaryCallsTest {
     }
 
     private static void startNotHalted() {
-        Check.sentence("6: not halted");
         Rig rig = Rig.with(Rig.HALT, 05200).run(1);
         rig.machine.start(Rig.CODE + 2);
         Check.same("state", rig.machine.state(), 0);
@@ -280,7 +302,6 @@ public final class BoundaryCallsTest {
     }
 
     private static void startNotWaiting() {
-        Check.sentence("6: not waiting");
         Rig rig = Rig.with(Rig.WAIT, 05200).run(3);
         rig.machine.start(Rig.CODE + 2);
         Check.same("state", rig.machine.state(), 0);
@@ -291,7 +312,6 @@ public final class BoundaryCallsTest {
     // Promise 7.
 
     private static void run() {
-        Check.sentence("7: So many instructions (1 .. 40)");
         Rig rig = Rig.with(05200, 0776);
         for (int n : new int[] {1, 2, 39, 40}) {
             rig.register(0, 0);
@@ -303,7 +323,6 @@ public final class BoundaryCallsTest {
     }
 
     private static void runUntilHalt() {
-        Check.sentence("7: or until it halts: how many were done");
         Rig rig = Rig.with(Rig.NOP, Rig.NOP, Rig.HALT, 05200);
         for (int n : new int[] {3, 4, 40}) {
             rig.machine.start(Rig.CODE);
@@ -328,7 +347,6 @@ public final class BoundaryCallsTest {
     }
 
     private static void runWaits() {
-        Check.sentence("7: (those of WAIT, too)");
         Rig rig = Rig.with(Rig.NOP, Rig.WAIT);
         Check.same("run(40)", rig.machine.run(40), 40);
         Check.same("run(1)", rig.machine.run(1), 1);
@@ -337,7 +355,6 @@ public final class BoundaryCallsTest {
     }
 
     private static void runCount() {
-        Check.sentence("7: IllegalArgumentException: n is not so");
         Rig rig = Rig.with(0777);
         for (int n : new int[] {LEAST, -40, -1, 0, 41, 42, 65536, GREATEST}) {
             Check.refuses("run(" + n + ")", Check.ARGUMENT, () -> rig.machine.run(n));
@@ -349,7 +366,6 @@ public final class BoundaryCallsTest {
     }
 
     private static void runHalted() {
-        Check.sentence("7: IllegalStateException: it is halted");
         Rig rig = Rig.with(Rig.HALT, 05200).run(1);
         for (int n : new int[] {1, 2, 40}) {
             Check.refuses("run(" + n + ")", Check.STATE, () -> rig.machine.run(n));
@@ -364,7 +380,6 @@ public final class BoundaryCallsTest {
     // Promise 8.
 
     private static void key() {
-        Check.sentence("8: A character (8 bits) comes from the keyboard");
         for (int character : new int[] {0, 1, 127, 128, 254, 255}) {
             UnibusMachine m = new UnibusMachine();
             m.key(character);
@@ -374,7 +389,6 @@ public final class BoundaryCallsTest {
     }
 
     private static void keyNone() {
-        Check.sentence("8: IllegalArgumentException: it is none");
         UnibusMachine m = new UnibusMachine();
         for (int character : new int[] {LEAST, -256, -128, -1, 256, 257, 65535, 65536 + 65, GREATEST}) {
             Check.refuses("key(" + character + ")", Check.ARGUMENT, () -> m.key(character));
@@ -387,7 +401,6 @@ public final class BoundaryCallsTest {
     }
 
     private static void keyInPlace() {
-        Check.sentence("8: in place of one that was not read");
         Rig rig = Rig.with(013700, Rig.KEYBOARD_CHARACTER, 013701, Rig.KEYBOARD_STATUS, 013702, Rig.KEYBOARD_CHARACTER);
         rig.machine.key(65);
         rig.machine.key(66);
@@ -410,7 +423,6 @@ public final class BoundaryCallsTest {
     }
 
     private static void printedNone() {
-        Check.sentence("9: How many characters were printed (k = -1); IndexOutOfBoundsException: there is none");
         Rig rig = printing();
         Check.same("printed(-1) of nothing", rig.machine.printed(-1), 0);
         Check.refuses("printed(0) of nothing", Check.INDEX, () -> rig.machine.printed(0));
@@ -426,7 +438,6 @@ public final class BoundaryCallsTest {
     }
 
     private static void printedLatest() {
-        Check.sentence("9: the one that was printed k-th latest (0 .. 31)");
         Rig rig = printing();
         for (int i = 0; i < 34; i++) {
             print(rig, 100 + i);
@@ -440,7 +451,6 @@ public final class BoundaryCallsTest {
     }
 
     private static void printedRange() {
-        Check.sentence("9: IndexOutOfBoundsException: there is none, for every k but -1 .. 31");
         Rig rig = printing();
         for (int i = 0; i < 40; i++) {
             print(rig, i);
@@ -460,7 +470,6 @@ public final class BoundaryCallsTest {
         {0, LEAST}, {0, -1}, {1, -1}, {7, -1}, {0, 16}, {6, 16}, {7, 16}, {0, 127}, {0, GREATEST}};
 
     private static void load() {
-        Check.sentence("10: Writes a word of the disk");
         for (int sector : new int[] {0, 1, 6, 7}) {
             for (int word : new int[] {0, 1, 14, 15}) {
                 UnibusMachine m = new UnibusMachine();
@@ -475,7 +484,6 @@ public final class BoundaryCallsTest {
     }
 
     private static void loadRefused() {
-        Check.sentence("10: IllegalArgumentException: sector is not 0 .. 7, word not 0 .. 15, or value no word");
         UnibusMachine m = new UnibusMachine();
         for (int[] place : NO_DISK_WORD) {
             Check.refuses("load(" + place[0] + ", " + place[1] + ", 7)", Check.ARGUMENT, () -> m.load(place[0], place[1], 7));
@@ -489,7 +497,6 @@ public final class BoundaryCallsTest {
     }
 
     private static void disk() {
-        Check.sentence("11: A word of the disk");
         UnibusMachine m = new UnibusMachine();
         for (int i = 0; i < 128; i++) {
             m.load(i / 16, i % 16, 65535 - i);
@@ -500,7 +507,6 @@ public final class BoundaryCallsTest {
     }
 
     private static void diskRefused() {
-        Check.sentence("11: IllegalArgumentException: as for load");
         UnibusMachine m = new UnibusMachine();
         for (int[] place : NO_DISK_WORD) {
             Check.refuses("disk(" + place[0] + ", " + place[1] + ")", Check.ARGUMENT, () -> m.disk(place[0], place[1]));
@@ -510,7 +516,6 @@ public final class BoundaryCallsTest {
     // Promises 12 and 13.
 
     private static void device() {
-        Check.sentence("12: A device register as a program would read it");
         Rig rig = Rig.with().page(0, 0, 0x0102, 1).page(1, 7, 0x7F02, 1023).move(12, Rig.DISK_COUNT).move(34, Rig.DISK_ADDRESS)
                 .move(5, Rig.DISK_SECTOR).move(66, Rig.DISK_STATUS).move(64, Rig.KEYBOARD_STATUS).move(64, Rig.PRINTER_STATUS)
                 .moved();
@@ -530,7 +535,6 @@ public final class BoundaryCallsTest {
     }
 
     private static void deviceMissing() {
-        Check.sentence("12: -1 when it is missing");
         UnibusMachine m = new UnibusMachine();
         m.deposit(0, 5);
         m.deposit(1022, 5);
@@ -542,7 +546,6 @@ public final class BoundaryCallsTest {
     }
 
     private static void deviceChangesNothing() {
-        Check.sentence("12: but nothing changes");
         Rig rig = Rig.with(013700, Rig.KEYBOARD_STATUS);
         rig.machine.key(65);
         for (int address = 57344; address <= 57472; address++) {
@@ -557,7 +560,6 @@ public final class BoundaryCallsTest {
     }
 
     private static void state() {
-        Check.sentence("13: 0 it runs, 1 it waits, 2 it is halted by HALT or was never started");
         UnibusMachine m = new UnibusMachine();
         Check.same("never started", m.state(), 2);
         Rig rig = Rig.with(Rig.NOP, Rig.WAIT);
@@ -573,7 +575,6 @@ public final class BoundaryCallsTest {
     }
 
     private static void stateWrongTrap() {
-        Check.sentence("13: 3 by something wrong in a trap");
         Rig trap = Rig.with(7).register(6, 0).run(1);
         Check.same("by a trap", trap.machine.state(), 3);
         Rig interrupt = Rig.with(Rig.CLEAR, Rig.STATUS).move(64, Rig.PRINTER_STATUS).register(6, 1).run(2);
@@ -586,7 +587,6 @@ public final class BoundaryCallsTest {
     }
 
     private static void manyCalls() {
-        Check.sentence("An object is used for at most 512 calls");
         // Each instruction is trapped, by a vector that leads to itself.
         UnibusMachine m = new UnibusMachine();
         m.deposit(8, Rig.CODE);

@@ -9,51 +9,90 @@ public final class BoundaryDevicesTest {
     private static final int LOOP = 0777;
 
     public static void main(String[] args) {
-        unnamedBits();
-        keyboardStatus();
-        characterNotWritten();
-        characterRead();
-        printerStatus();
-        printerBits();
-        printerNotReady();
-        printedBehindFourth();
-        printerReadyThen();
-        printedAnew();
-        printedInPlace();
-        printerReads();
-        diskGoReads();
-        diskReadyNotWritten();
-        diskCount();
-        diskAddress();
-        diskSector();
-        goWhileReady();
-        goWhileNot();
-        diskBehindEighth();
-        diskByTwo();
-        diskDirection();
-        diskNextSector();
-        diskSectorZero();
-        diskSixteen();
-        diskNone();
-        diskOdd();
-        diskNoMemory();
-        diskWrongNoMore();
-        diskReadyThen();
-        diskRegistersStay();
-        statusAtEnd();
-        statusMode();
-        statusOfTrap();
-        statusCarry();
-        statusUnnamed();
-        statusJsr();
-        byteReads();
-        byteWrites();
-        byteWritesOther();
+        Check.sentence("DEVICE REGISTERS (bits not named are 0 and stay so)",
+                BoundaryDevicesTest::unnamedBits);
+        Check.sentence("57424 KEYBOARD status: bit 7 READY (cannot be written), 6 ENABLED",
+                BoundaryDevicesTest::keyboardStatus);
+        Check.sentence("57426 its character (cannot be written)",
+                BoundaryDevicesTest::characterNotWritten);
+        Check.sentence("reading it makes it not ready",
+                BoundaryDevicesTest::characterRead);
+        Check.sentence("57428 PRINTER status, likewise",
+                BoundaryDevicesTest::printerStatus);
+        Check.sentence("57430 its character (8 bits)",
+                BoundaryDevicesTest::printerBits);
+        Check.sentence("writing it makes it not ready",
+                BoundaryDevicesTest::printerNotReady);
+        Check.sentence("it is printed behind the fourth instruction after this one",
+                BoundaryDevicesTest::printedBehindFourth);
+        Check.sentence("and ready then",
+                BoundaryDevicesTest::printerReadyThen);
+        Check.sentence("another one before that begins anew",
+                BoundaryDevicesTest::printedAnew);
+        Check.sentence("in its place",
+                BoundaryDevicesTest::printedInPlace);
+        Check.sentence("reading gives 0",
+                BoundaryDevicesTest::printerReads);
+        Check.sentence("57440 DISK status: bits 0 GO (reads as 0)",
+                BoundaryDevicesTest::diskGoReads);
+        Check.sentence("6 enabled, 7 ready and 15 WRONG (cannot be written)",
+                BoundaryDevicesTest::diskReadyNotWritten);
+        Check.sentence("57442 how many words (6 bits)",
+                BoundaryDevicesTest::diskCount);
+        Check.sentence("57444 the address (a real one)",
+                BoundaryDevicesTest::diskAddress);
+        Check.sentence("57446 the sector (3 bits)",
+                BoundaryDevicesTest::diskSector);
+        Check.sentence("When a disk status with go is written while it is ready: it is not ready and not wrong",
+                BoundaryDevicesTest::goWhileReady);
+        Check.sentence("(go is written while it is not ready: nothing begins)",
+                BoundaryDevicesTest::goWhileNot);
+        Check.sentence("and behind the eighth instruction after this one words go",
+                BoundaryDevicesTest::diskBehindEighth);
+        Check.sentence("one after the other, from the address on (by 2)",
+                BoundaryDevicesTest::diskByTwo);
+        Check.sentence("to the sector (to write), or from the sector to memory, from word 0 on",
+                BoundaryDevicesTest::diskDirection);
+        Check.sentence("at sector's end on in the next one",
+                BoundaryDevicesTest::diskNextSector);
+        Check.sentence("(sector 0 behind 7)",
+                BoundaryDevicesTest::diskSectorZero);
+        Check.sentence("a sector has 16 words",
+                BoundaryDevicesTest::diskSixteen);
+        Check.sentence("57442 how many words: none",
+                BoundaryDevicesTest::diskNone);
+        Check.sentence("An odd address: WRONG",
+                BoundaryDevicesTest::diskOdd);
+        Check.sentence("or one of no memory: WRONG",
+                BoundaryDevicesTest::diskNoMemory);
+        Check.sentence("and no more words",
+                BoundaryDevicesTest::diskWrongNoMore);
+        Check.sentence("It is ready then",
+                BoundaryDevicesTest::diskReadyThen);
+        Check.sentence("(The three registers stay as they are.)",
+                BoundaryDevicesTest::diskRegistersStay);
+        Check.sentence("57470 the status (what is written there holds from the end of the instruction on)",
+                BoundaryDevicesTest::statusAtEnd);
+        Check.sentence("(its mode too)",
+                BoundaryDevicesTest::statusMode);
+        Check.sentence("(from the end of the trap on)",
+                BoundaryDevicesTest::statusOfTrap);
+        Check.sentence("where an instruction that sets flags leaves C as it is, C is what it was before it",
+                BoundaryDevicesTest::statusCarry);
+        Check.sentence("where an instruction names some, one that is not named stays as it was before it, whatever was written to the status",
+                BoundaryDevicesTest::statusUnnamed);
+        Check.sentence("what JSR puts there holds whole",
+                BoundaryDevicesTest::statusJsr);
+        Check.sentence("Reading a byte of a device register reads the register (57427 makes the keyboard not ready, too)",
+                BoundaryDevicesTest::byteReads);
+        Check.sentence("writing one writes the word that it has, with that byte",
+                BoundaryDevicesTest::byteWrites);
+        Check.sentence("(looked at without any effect)",
+                BoundaryDevicesTest::byteWritesOther);
         Check.end();
     }
 
     private static void unnamedBits() {
-        Check.sentence("DEVICE REGISTERS (bits not named are 0 and stay so)");
         int[][] cases = {{57344, 0x7F02}, {57376, 0x3FE}, {57408, 0xE01E}, {57424, ENABLED}, {57426, 0}, {57428, BOTH},
             {57430, 0}, {57440, BOTH | WRITING}, {57442, 62}, {57444, 65534}, {57446, 6}};
         for (int[] one : cases) {
@@ -63,7 +102,6 @@ public final class BoundaryDevicesTest {
     }
 
     private static void keyboardStatus() {
-        Check.sentence("57424 KEYBOARD status: bit 7 READY (cannot be written), 6 ENABLED");
         for (int value : new int[] {65535, READY, ENABLED, 0}) {
             Rig rig = Rig.with().move(value, Rig.KEYBOARD_STATUS).moved();
             Check.same("not ready, written " + value, rig.device(Rig.KEYBOARD_STATUS), value & ENABLED);
@@ -71,11 +109,12 @@ public final class BoundaryDevicesTest {
             ready.machine.key(65);
             ready.moved();
             Check.same("ready, written " + value, ready.device(Rig.KEYBOARD_STATUS), READY | value & ENABLED);
+            Rig before = Rig.with().move(ENABLED, Rig.KEYBOARD_STATUS).move(value, Rig.KEYBOARD_STATUS).moved();
+            Check.same("enabled, written " + value, before.device(Rig.KEYBOARD_STATUS), value & ENABLED);
         }
     }
 
     private static void characterNotWritten() {
-        Check.sentence("57426 its character (cannot be written)");
         Rig rig = Rig.with().move(65, Rig.KEYBOARD_CHARACTER).moved();
         Check.same("none", rig.device(Rig.KEYBOARD_CHARACTER), 0);
         Check.same("keyboard", rig.device(Rig.KEYBOARD_STATUS), 0);
@@ -87,7 +126,6 @@ public final class BoundaryDevicesTest {
     }
 
     private static void characterRead() {
-        Check.sentence("reading it makes it not ready");
         Rig rig = Rig.with().move(ENABLED, Rig.KEYBOARD_STATUS).then(05737, Rig.KEYBOARD_STATUS, 013700, Rig.KEYBOARD_CHARACTER);
         rig.machine.key(255);
         rig.run(2);
@@ -100,17 +138,17 @@ public final class BoundaryDevicesTest {
     }
 
     private static void printerStatus() {
-        Check.sentence("57428 PRINTER status, likewise");
         for (int value : new int[] {65535, READY, ENABLED, 0}) {
             Rig rig = Rig.with().move(value, Rig.PRINTER_STATUS).moved();
             Check.same("ready, written " + value, rig.device(Rig.PRINTER_STATUS), READY | value & ENABLED);
             Rig not = Rig.with().move(65, Rig.PRINTER_CHARACTER).move(value, Rig.PRINTER_STATUS).moved();
             Check.same("not ready, written " + value, not.device(Rig.PRINTER_STATUS), value & ENABLED);
+            Rig before = Rig.with().move(ENABLED, Rig.PRINTER_STATUS).move(value, Rig.PRINTER_STATUS).moved();
+            Check.same("enabled, written " + value, before.device(Rig.PRINTER_STATUS), READY | value & ENABLED);
         }
     }
 
     private static void printerBits() {
-        Check.sentence("57430 its character (8 bits)");
         for (int value : new int[] {0, 255, 256, 0x1FF, 65535, 0x1241}) {
             Rig rig = Rig.with().move(value, Rig.PRINTER_CHARACTER).then(LOOP).run(5);
             Check.same("printed(0) of " + value, rig.machine.printed(0), value & 255);
@@ -118,7 +156,6 @@ public final class BoundaryDevicesTest {
     }
 
     private static void printerNotReady() {
-        Check.sentence("writing it makes it not ready");
         Rig rig = Rig.with().move(65, Rig.PRINTER_CHARACTER).moved();
         Check.same("printer", rig.device(Rig.PRINTER_STATUS), 0);
         Rig enabled = Rig.with().move(ENABLED, Rig.PRINTER_STATUS).move(65, Rig.PRINTER_CHARACTER).moved();
@@ -126,7 +163,6 @@ public final class BoundaryDevicesTest {
     }
 
     private static void printedBehindFourth() {
-        Check.sentence("it is printed behind the fourth instruction after this one");
         Rig rig = Rig.with().move(65, Rig.PRINTER_CHARACTER).then(LOOP).run(1);
         for (int i = 1; i <= 3; i++) {
             rig.run(1);
@@ -139,7 +175,6 @@ public final class BoundaryDevicesTest {
     }
 
     private static void printerReadyThen() {
-        Check.sentence("and ready then");
         Rig rig = Rig.with().move(65, Rig.PRINTER_CHARACTER).then(LOOP).run(4);
         Check.same("behind the third", rig.device(Rig.PRINTER_STATUS), 0);
         rig.run(1);
@@ -161,7 +196,6 @@ public final class BoundaryDevicesTest {
     }
 
     private static void printedAnew() {
-        Check.sentence("another one before that begins anew");
         for (int n = 1; n <= 4; n++) {
             Rig rig = again(n).run(3);
             Check.same("behind the third after the second one, " + n + " later", rig.machine.printed(-1), 0);
@@ -174,9 +208,10 @@ public final class BoundaryDevicesTest {
     }
 
     private static void printedInPlace() {
-        Check.sentence("in its place");
         for (int n = 1; n <= 4; n++) {
-            Check.same("the second one, " + n + " later", again(n).run(10).machine.printed(0), 66);
+            Rig rig = again(n).run(10);
+            Check.same("the second one, " + n + " later", rig.machine.printed(0), 66);
+            Check.same("the second one alone", rig.machine.printed(-1), 1);
         }
         Rig behind = again(5);
         Check.same("the first one is printed already", behind.machine.printed(0), 65);
@@ -186,7 +221,6 @@ public final class BoundaryDevicesTest {
     }
 
     private static void printerReads() {
-        Check.sentence("reading gives 0");
         Rig rig = Rig.with().move(255, Rig.PRINTER_CHARACTER).then(013700, Rig.PRINTER_CHARACTER, LOOP).register(0, 9).run(2);
         Check.same("while it prints", rig.r(0), 0);
         Check.same("device", rig.device(Rig.PRINTER_CHARACTER), 0);
@@ -213,7 +247,6 @@ public final class BoundaryDevicesTest {
     }
 
     private static void diskGoReads() {
-        Check.sentence("57440 DISK status: bits 0 GO (reads as 0)");
         Rig rig = disk(1, 700, 0).move(GO, Rig.DISK_STATUS).then(013700, Rig.DISK_STATUS, LOOP).register(0, 9).run(2);
         Check.same("what a program reads", rig.r(0), 0);
         Check.same("device", rig.device(Rig.DISK_STATUS), 0);
@@ -222,10 +255,11 @@ public final class BoundaryDevicesTest {
     }
 
     private static void diskReadyNotWritten() {
-        Check.sentence("6 enabled, 7 ready and 15 WRONG (cannot be written)");
         for (int value : new int[] {65534, READY, ENABLED, WRONG, WRITING, 0}) {
             Rig ready = Rig.with().move(value, Rig.DISK_STATUS).moved();
             Check.same("ready, written " + value, ready.device(Rig.DISK_STATUS), READY | value & (ENABLED | WRITING));
+            Rig before = Rig.with().move(ENABLED | WRITING, Rig.DISK_STATUS).move(value, Rig.DISK_STATUS).moved();
+            Check.same("enabled, written " + value, before.device(Rig.DISK_STATUS), READY | value & (ENABLED | WRITING));
             Rig not = disk(1, 700, 0).move(GO, Rig.DISK_STATUS).move(value, Rig.DISK_STATUS).moved();
             Check.same("not ready, written " + value, not.device(Rig.DISK_STATUS), value & (ENABLED | WRITING));
             Rig wrong = gone(1, 701, 0, 0).then().memory(700, Rig.MOVE, value, Rig.DISK_STATUS).register(7, 700).run(1);
@@ -234,7 +268,6 @@ public final class BoundaryDevicesTest {
     }
 
     private static void diskCount() {
-        Check.sentence("57442 how many words (6 bits)");
         for (int count : new int[] {1, 62, 63, 64, 65, 127, 65535}) {
             Rig rig = gone(count, 800, 0, 0);
             Check.same("device", rig.device(Rig.DISK_COUNT), count & 63);
@@ -245,23 +278,21 @@ public final class BoundaryDevicesTest {
     }
 
     private static void diskAddress() {
-        Check.sentence("57444 the address (a real one)");
         for (int address : new int[] {0, 1, 65534, 65535}) {
             Rig rig = Rig.with().move(address, Rig.DISK_ADDRESS).moved();
             Check.same("device", rig.device(Rig.DISK_ADDRESS), address);
         }
         // The user's page 0 begins at 128, but 300 is 300.
-        Rig rig = Rig.mapped().page(1, 0, 0x7F02, 2).move(1, Rig.DISK_COUNT).move(300, Rig.DISK_ADDRESS).move(1, Rig.CONTROL)
-                .move(GO, Rig.DISK_STATUS).move(Rig.USER, Rig.STATUS).moved();
+        Rig rig = Rig.mapped().page(1, 0, 0x7F02, 2).page(1, 7, 0x7F02, 896).move(1, Rig.DISK_COUNT).move(1, Rig.CONTROL)
+                .move(Rig.USER, Rig.STATUS).moved();
         rig.machine.load(0, 0, 4321);
-        rig.memory(rig.end() + 128, LOOP).run(7);
+        rig.memory(rig.end() + 128, Rig.MOVE, 300, Rig.DISK_ADDRESS, Rig.MOVE, GO, Rig.DISK_STATUS, LOOP).run(10);
         Check.same("the word at 300", rig.at(300), 4321);
         Check.same("the word at 428", rig.at(428), 0);
         Check.same("disk", rig.device(Rig.DISK_STATUS), READY);
     }
 
     private static void diskSector() {
-        Check.sentence("57446 the sector (3 bits)");
         for (int sector : new int[] {0, 7, 8, 15, 65535}) {
             Rig rig = gone(1, 700, sector, 0);
             Check.same("device", rig.device(Rig.DISK_SECTOR), sector & 7);
@@ -270,7 +301,6 @@ public final class BoundaryDevicesTest {
     }
 
     private static void goWhileReady() {
-        Check.sentence("When a disk status with go is written while it is ready: it is not ready and not wrong");
         Rig rig = gone(1, 701, 0, 0);
         Check.same("wrong before", rig.device(Rig.DISK_STATUS), WRONG | READY);
         rig.memory(700, Rig.MOVE, GO | ENABLED | WRITING, Rig.DISK_STATUS).register(7, 700).run(1);
@@ -278,7 +308,6 @@ public final class BoundaryDevicesTest {
     }
 
     private static void goWhileNot() {
-        Check.sentence("(go is written while it is not ready: nothing begins)");
         for (int n = 1; n <= 8; n++) {
             Rig rig = disk(1, 700, 0).move(GO, Rig.DISK_STATUS);
             for (int i = 1; i < n; i++) {
@@ -302,7 +331,6 @@ public final class BoundaryDevicesTest {
     }
 
     private static void diskBehindEighth() {
-        Check.sentence("and behind the eighth instruction after this one words go");
         Rig rig = disk(2, 700, 0).move(GO, Rig.DISK_STATUS).then(LOOP).run(1);
         for (int i = 1; i <= 7; i++) {
             rig.run(1);
@@ -320,7 +348,6 @@ public final class BoundaryDevicesTest {
     }
 
     private static void diskByTwo() {
-        Check.sentence("one after the other, from the address on (by 2)");
         for (int address : new int[] {0, 2, 700, 1014}) {
             Rig rig = gone(5, address, 2, 0);
             for (int i = 0; i < 5; i++) {
@@ -334,7 +361,6 @@ public final class BoundaryDevicesTest {
     }
 
     private static void diskDirection() {
-        Check.sentence("to the sector (to write), or from the sector to memory, from word 0 on");
         Rig to = disk(2, 700, 3).memory(700, 7, 8).move(GO | WRITING, Rig.DISK_STATUS).then(LOOP).run(9);
         Check.same("disk word 0", to.machine.disk(3, 0), 7);
         Check.same("disk word 1", to.machine.disk(3, 1), 8);
@@ -347,7 +373,6 @@ public final class BoundaryDevicesTest {
     }
 
     private static void diskNextSector() {
-        Check.sentence("at sector's end on in the next one");
         Rig from = gone(17, 800, 3, 0);
         Check.same("the last of its sector", from.at(830), 1000 + 63);
         Check.same("the first of the next", from.at(832), 1000 + 64);
@@ -358,7 +383,6 @@ public final class BoundaryDevicesTest {
     }
 
     private static void diskSectorZero() {
-        Check.sentence("(sector 0 behind 7)");
         for (int sector : new int[] {5, 6, 7}) {
             Rig rig = gone(63, 800, sector, 0);
             for (int i = 0; i < 63; i++) {
@@ -371,7 +395,6 @@ public final class BoundaryDevicesTest {
     }
 
     private static void diskSixteen() {
-        Check.sentence("a sector has 16 words");
         Rig to = disk(16, 800, 2).move(GO | WRITING, Rig.DISK_STATUS).then(LOOP).run(9);
         for (int i = 0; i < 128; i++) {
             Check.same("disk word " + i, to.machine.disk(i / 16, i % 16), i / 16 == 2 ? 0 : 1000 + i);
@@ -379,7 +402,6 @@ public final class BoundaryDevicesTest {
     }
 
     private static void diskNone() {
-        Check.sentence("57442 how many words: none");
         for (int address : new int[] {700, 701, 1024, 65535}) {
             for (int status : new int[] {0, WRITING}) {
                 Rig rig = gone(0, address, 2, status);
@@ -391,7 +413,6 @@ public final class BoundaryDevicesTest {
     }
 
     private static void diskOdd() {
-        Check.sentence("An odd address: WRONG");
         for (int address : new int[] {1, 701, 1021, 1023, 65535}) {
             for (int status : new int[] {0, WRITING}) {
                 Rig rig = gone(2, address, 2, status);
@@ -403,7 +424,6 @@ public final class BoundaryDevicesTest {
     }
 
     private static void diskNoMemory() {
-        Check.sentence("or one of no memory: WRONG");
         for (int address : new int[] {1024, 1026, 32768, 57342, 57344, 57430, 57444, 65534}) {
             for (int status : new int[] {0, WRITING}) {
                 Rig rig = gone(2, address, 2, status);
@@ -417,7 +437,6 @@ public final class BoundaryDevicesTest {
     }
 
     private static void diskWrongNoMore() {
-        Check.sentence("and no more words");
         Rig from = gone(40, 1018, 2, 0);
         Check.same("disk", from.device(Rig.DISK_STATUS), WRONG | READY);
         for (int i = 0; i < 3; i++) {
@@ -435,7 +454,6 @@ public final class BoundaryDevicesTest {
     }
 
     private static void diskReadyThen() {
-        Check.sentence("It is ready then");
         for (int address : new int[] {700, 701, 1022, 1024}) {
             Rig rig = gone(2, address, 2, ENABLED);
             Check.same("disk of " + address, rig.device(Rig.DISK_STATUS) & ~WRONG, BOTH);
@@ -443,7 +461,6 @@ public final class BoundaryDevicesTest {
     }
 
     private static void diskRegistersStay() {
-        Check.sentence("(The three registers stay as they are.)");
         for (int[] one : new int[][] {{63, 700, 7}, {40, 1018, 6}, {1, 701, 0}, {0, 700, 3}}) {
             for (int status : new int[] {0, WRITING}) {
                 Rig rig = gone(one[0], one[1], one[2], status);
@@ -457,7 +474,6 @@ public final class BoundaryDevicesTest {
     // The status.
 
     private static void statusAtEnd() {
-        Check.sentence("57470 the status (what is written there holds from the end of the instruction on)");
         for (int priority = 0; priority < 8; priority++) {
             Rig rig = Rig.with().move(32 * priority, Rig.STATUS).moved();
             Check.same("status", rig.r(8) & ~15, 32 * priority);
@@ -471,7 +487,6 @@ public final class BoundaryDevicesTest {
     }
 
     private static void statusMode() {
-        Check.sentence("(its mode too)");
         Rig rig = Rig.with().move(0x5000, Rig.STATUS).moved();
         Check.same("status", rig.r(8), 0x5000);
         Check.same("6 of the user", rig.r(6), 0);
@@ -486,7 +501,6 @@ public final class BoundaryDevicesTest {
     }
 
     private static void statusOfTrap() {
-        Check.sentence("(from the end of the trap on)");
         // The user's status goes to the status, then 7 would go on the user's stack if it held at once.
         Rig rig = Rig.user(700, 0104400).vector(28, 0x00A0).register(6, Rig.STATUS + 2);
         Check.same("run(2)", rig.machine.run(2), 1);
@@ -498,7 +512,6 @@ public final class BoundaryDevicesTest {
     }
 
     private static void statusCarry() {
-        Check.sentence("where an instruction that sets flags leaves C as it is, C is what it was before it");
         int[][] cases = {{012737, 0}, {012737, 65535}, {042737, 1}, {052737, 1}};
         for (int carry = 0; carry <= 1; carry++) {
             for (int[] one : cases) {
@@ -520,7 +533,6 @@ public final class BoundaryDevicesTest {
     }
 
     private static void statusUnnamed() {
-        Check.sentence("where an instruction names some, one that is not named stays as it was before it, whatever was written to the status");
         for (int before = 0; before < 16; before++) {
             Rig rig = Rig.with(0260 | before, 06737, Rig.STATUS).run(2);
             int n = before & 8;
@@ -529,7 +541,6 @@ public final class BoundaryDevicesTest {
     }
 
     private static void statusJsr() {
-        Check.sentence("what JSR puts there holds whole");
         for (int value : new int[] {0, 15, 1, 0x4000, 0x50EF, 65535}) {
             for (int flags : new int[] {0, 15}) {
                 Rig rig = Rig.with(0260 | flags, 04037, 600).register(0, value).register(6, Rig.STATUS + 2).run(2);
@@ -541,7 +552,6 @@ public final class BoundaryDevicesTest {
     // Bytes.
 
     private static void byteReads() {
-        Check.sentence("Reading a byte of a device register reads the register (57427 makes the keyboard not ready, too)");
         for (int address : new int[] {Rig.KEYBOARD_CHARACTER, Rig.KEYBOARD_CHARACTER + 1}) {
             Rig rig = Rig.with(0113700, address);
             rig.machine.key(0x45);
@@ -559,7 +569,6 @@ public final class BoundaryDevicesTest {
     }
 
     private static void byteWrites() {
-        Check.sentence("writing one writes the word that it has, with that byte");
         Rig base = Rig.with().move(0x155, 57406).then(Rig.MOVE_BYTE, 0xFE, 57407).run(2);
         Check.same("the higher byte", base.device(57406), 0x255);
         base.then(Rig.MOVE_BYTE, 0xAA, 57406).run(1);
@@ -577,7 +586,6 @@ public final class BoundaryDevicesTest {
     }
 
     private static void byteWritesOther() {
-        Check.sentence("(looked at without any effect)");
         Rig key = Rig.with(Rig.MOVE_BYTE, 1, Rig.KEYBOARD_CHARACTER, Rig.MOVE_BYTE, 1, Rig.KEYBOARD_CHARACTER + 1);
         key.machine.key(65);
         key.run(2);

@@ -8,33 +8,60 @@ public final class BoundaryFlagsTest {
     private static final int KEPT = 16;
 
     public static void main(String[] args) {
-        negative();
-        zero();
-        move();
-        compare();
-        compareCarry();
-        addOverflow();
-        addCarry();
-        subtractOverflow();
-        subtractBorrow();
-        multiplyCarry();
-        multiplyWhole();
-        swap();
-        clearAndTest();
-        complement();
-        increment();
-        decrement();
-        negate();
-        addCarryIn();
-        addCarryOverflow();
-        subtractCarryIn();
-        subtractCarryOverflow();
-        shiftedOut();
-        shiftOverflow();
-        moveMode();
-        extendSign();
-        noFlags();
-        atTheEnd();
+        Check.sentence("N is the highest bit of the result (of 8 or 16)",
+                BoundaryFlagsTest::negative);
+        Check.sentence("Z that it is 0",
+                BoundaryFlagsTest::zero);
+        Check.sentence("MOV, BIT, BIC, BIS, XOR: V 0",
+                BoundaryFlagsTest::move);
+        Check.sentence("CMP: V when s and d have unlike signs and the result that of d",
+                BoundaryFlagsTest::compare);
+        Check.sentence("C when s is less than d without signs",
+                BoundaryFlagsTest::compareCarry);
+        Check.sentence("ADD likewise as usual (V)",
+                BoundaryFlagsTest::addOverflow);
+        Check.sentence("(C: carry)",
+                BoundaryFlagsTest::addCarry);
+        Check.sentence("SUB likewise as usual (V)",
+                BoundaryFlagsTest::subtractOverflow);
+        Check.sentence("(C: borrow)",
+                BoundaryFlagsTest::subtractBorrow);
+        Check.sentence("MUL: V 0, C when the product is not what its lower word says",
+                BoundaryFlagsTest::multiplyCarry);
+        Check.sentence("N, Z of the whole",
+                BoundaryFlagsTest::multiplyWhole);
+        Check.sentence("SWAB: of the lower byte; V, C 0",
+                BoundaryFlagsTest::swap);
+        Check.sentence("CLR, TST: V, C 0",
+                BoundaryFlagsTest::clearAndTest);
+        Check.sentence("COM: V 0, C 1",
+                BoundaryFlagsTest::complement);
+        Check.sentence("INC: V when it comes to the least number",
+                BoundaryFlagsTest::increment);
+        Check.sentence("DEC: V when it comes to the greatest number",
+                BoundaryFlagsTest::decrement);
+        Check.sentence("NEG: V for the least number, C unless 0",
+                BoundaryFlagsTest::negate);
+        Check.sentence("ADC: C only if C was and the result is 0",
+                BoundaryFlagsTest::addCarryIn);
+        Check.sentence("ADC: V if C was and it is the least number",
+                BoundaryFlagsTest::addCarryOverflow);
+        Check.sentence("SBC: C if C was and the result is the greatest without sign",
+                BoundaryFlagsTest::subtractCarryIn);
+        Check.sentence("SBC: V if C was and it is the greatest number",
+                BoundaryFlagsTest::subtractCarryOverflow);
+        Check.sentence("ROR, ROL, ASR, ASL: C what went out",
+                BoundaryFlagsTest::shiftedOut);
+        Check.sentence("V N ^ C",
+                BoundaryFlagsTest::shiftOverflow);
+        Check.sentence("MFPI, MTPI: V 0",
+                BoundaryFlagsTest::moveMode);
+        Check.sentence("SXT: Z unless N, V 0, N stays",
+                BoundaryFlagsTest::extendSign);
+        Check.sentence("(an instruction that names no flags leaves them)",
+                BoundaryFlagsTest::noFlags);
+        Check.sentence("FLAGS are set at the end, behind all that is written",
+                BoundaryFlagsTest::atTheEnd);
         Check.end();
     }
 
@@ -56,7 +83,6 @@ public final class BoundaryFlagsTest {
     }
 
     private static void negative() {
-        Check.sentence("N is the highest bit of the result (of 8 or 16)");
         two(010001, 32768, 0, N | KEPT);
         two(010001, 32767, 0, KEPT);
         two(010001, 128, 0, KEPT);
@@ -68,7 +94,6 @@ public final class BoundaryFlagsTest {
     }
 
     private static void zero() {
-        Check.sentence("Z that it is 0");
         two(010001, 0, 5, Z | KEPT);
         two(010001, 256, 5, KEPT);
         two(0110001, 256, 5, Z | KEPT);
@@ -79,7 +104,6 @@ public final class BoundaryFlagsTest {
     }
 
     private static void move() {
-        Check.sentence("MOV, BIT, BIC, BIS, XOR: V 0");
         for (int word : new int[] {010001, 030001, 040001, 050001, 074001, 0110001, 0130001, 0140001, 0150001}) {
             Rig rig = Rig.with(0277, word).register(0, 3).register(1, 6).run(2);
             Check.same("V and C of " + Integer.toOctalString(word), rig.flags() & (V | C), C);
@@ -89,7 +113,6 @@ public final class BoundaryFlagsTest {
     }
 
     private static void compare() {
-        Check.sentence("CMP: V when s and d have unlike signs and the result that of d");
         two(020001, 32768, 1, V);
         two(020001, 32767, 65535, N | V | C);
         two(020001, 0, 32768, N | V | C);
@@ -97,13 +120,14 @@ public final class BoundaryFlagsTest {
         two(020001, 65535, 32767, N);
         two(020001, 65534, 32767, V);
         two(020001, 32768, 0, N);
+        two(020001, 5, 3, 0);
+        two(020001, 65534, 65535, N | C);
         two(0120001, 128, 1, V);
         two(0120001, 127, 255, N | V | C);
         two(0120001, 128, 0, N);
     }
 
     private static void compareCarry() {
-        Check.sentence("C when s is less than d without signs");
         two(020001, 0, 0, Z);
         two(020001, 65535, 65535, Z);
         two(020001, 0, 1, N | C);
@@ -116,7 +140,6 @@ public final class BoundaryFlagsTest {
     }
 
     private static void addOverflow() {
-        Check.sentence("ADD likewise as usual (V)");
         two(060001, 32767, 1, N | V);
         two(060001, 32767, 0, 0);
         two(060001, 32767, 32767, N | V);
@@ -127,7 +150,6 @@ public final class BoundaryFlagsTest {
     }
 
     private static void addCarry() {
-        Check.sentence("(C: carry)");
         two(060001, 65535, 0, N);
         two(060001, 65535, 1, Z | C);
         two(060001, 1, 65535, Z | C);
@@ -137,7 +159,6 @@ public final class BoundaryFlagsTest {
     }
 
     private static void subtractOverflow() {
-        Check.sentence("SUB likewise as usual (V)");
         two(0160001, 1, 32768, V);
         two(0160001, 65535, 32767, N | V | C);
         two(0160001, 32768, 0, N | V | C);
@@ -147,7 +168,6 @@ public final class BoundaryFlagsTest {
     }
 
     private static void subtractBorrow() {
-        Check.sentence("(C: borrow)");
         two(0160001, 0, 0, Z);
         two(0160001, 1, 0, N | C);
         two(0160001, 0, 1, 0);
@@ -157,7 +177,6 @@ public final class BoundaryFlagsTest {
     }
 
     private static void multiplyCarry() {
-        Check.sentence("MUL: V 0, C when the product is not what its lower word says");
         // 32767, 32768, -32768, -32769 and about them.
         int[][] cases = {{32767, 1, 0}, {16384, 2, C}, {32768, 1, N}, {32768, 65535, C}, {10923, 65533, N | C}, {16384, 65534, N},
             {32768, 32768, C}, {32767, 32767, C}, {65535, 65535, 0}, {256, 256, C}, {65535, 1, N}, {4681, 7, 0}};
@@ -172,7 +191,6 @@ public final class BoundaryFlagsTest {
     }
 
     private static void multiplyWhole() {
-        Check.sentence("N, Z of the whole");
         // The lower word is 0, or has its highest bit, and the whole has not.
         int[][] cases = {{256, 256, C}, {32768, 2, N | C}, {16384, 2, C}, {0, 65535, Z}, {0, 0, Z}, {65280, 256, N | C}};
         for (int[] each : cases) {
@@ -184,7 +202,6 @@ public final class BoundaryFlagsTest {
     }
 
     private static void swap() {
-        Check.sentence("SWAB: of the lower byte; V, C 0");
         for (int carry = 0; carry <= 1; carry++) {
             one(0301, 0x8000, carry, N);
             one(0301, 0x0080, carry, Z);
@@ -195,7 +212,6 @@ public final class BoundaryFlagsTest {
     }
 
     private static void clearAndTest() {
-        Check.sentence("CLR, TST: V, C 0");
         for (int carry = 0; carry <= 1; carry++) {
             one(05001, 65535, carry, Z);
             one(0105001, 65535, carry, Z);
@@ -208,7 +224,6 @@ public final class BoundaryFlagsTest {
     }
 
     private static void complement() {
-        Check.sentence("COM: V 0, C 1");
         for (int carry = 0; carry <= 1; carry++) {
             one(05101, 65535, carry, Z | C);
             one(05101, 0, carry, N | C);
@@ -219,7 +234,6 @@ public final class BoundaryFlagsTest {
     }
 
     private static void increment() {
-        Check.sentence("INC: V when it comes to the least number");
         for (int carry = 0; carry <= 1; carry++) {
             one(05201, 32767, carry, N | V | carry);
             one(05201, 32766, carry, carry);
@@ -232,7 +246,6 @@ public final class BoundaryFlagsTest {
     }
 
     private static void decrement() {
-        Check.sentence("DEC: V when it comes to the greatest number");
         for (int carry = 0; carry <= 1; carry++) {
             one(05301, 32768, carry, V | carry);
             one(05301, 32769, carry, N | carry);
@@ -245,7 +258,6 @@ public final class BoundaryFlagsTest {
     }
 
     private static void negate() {
-        Check.sentence("NEG: V for the least number, C unless 0");
         for (int carry = 0; carry <= 1; carry++) {
             one(05401, 32768, carry, N | V | C);
             one(05401, 32769, carry, C);
@@ -259,7 +271,6 @@ public final class BoundaryFlagsTest {
     }
 
     private static void addCarryIn() {
-        Check.sentence("ADC: C only if C was and the result is 0");
         one(05501, 65535, 1, Z | C);
         one(05501, 65535, 0, N);
         one(05501, 0, 0, Z);
@@ -269,7 +280,6 @@ public final class BoundaryFlagsTest {
     }
 
     private static void addCarryOverflow() {
-        Check.sentence("ADC: V if C was and it is the least number");
         one(05501, 32767, 1, N | V);
         one(05501, 32768, 0, N);
         one(05501, 32768, 1, N);
@@ -279,7 +289,6 @@ public final class BoundaryFlagsTest {
     }
 
     private static void subtractCarryIn() {
-        Check.sentence("SBC: C if C was and the result is the greatest without sign");
         one(05601, 0, 1, N | C);
         one(05601, 65535, 0, N);
         one(05601, 0, 0, Z);
@@ -289,7 +298,6 @@ public final class BoundaryFlagsTest {
     }
 
     private static void subtractCarryOverflow() {
-        Check.sentence("SBC: V if C was and it is the greatest number");
         one(05601, 32768, 1, V);
         one(05601, 32767, 0, 0);
         one(05601, 32769, 1, N);
@@ -299,7 +307,6 @@ public final class BoundaryFlagsTest {
     }
 
     private static void shiftedOut() {
-        Check.sentence("ROR, ROL, ASR, ASL: C what went out");
         int[][] rows = {
             // word, what it is, C before, result, C behind
             {06001, 1, 0, 0, 1}, {06001, 0, 1, 32768, 0}, {06001, 32768, 0, 16384, 0}, {06001, 65535, 1, 65535, 1},
@@ -316,7 +323,6 @@ public final class BoundaryFlagsTest {
     }
 
     private static void shiftOverflow() {
-        Check.sentence("V N ^ C");
         one(06001, 1, 0, Z | V | C);
         one(06001, 1, 1, N | C);
         one(06001, 0, 1, N | V);
@@ -334,7 +340,6 @@ public final class BoundaryFlagsTest {
     }
 
     private static void moveMode() {
-        Check.sentence("MFPI, MTPI: V 0");
         for (int before : new int[] {0, 15}) {
             for (int[] each : new int[][] {{0, Z}, {32768, N}, {32767, 0}, {65535, N}}) {
                 Rig from = Rig.with(0260 | before, 06500).register(0, each[0]).run(2);
@@ -346,7 +351,6 @@ public final class BoundaryFlagsTest {
     }
 
     private static void extendSign() {
-        Check.sentence("SXT: Z unless N, V 0, N stays");
         for (int before = 0; before < 16; before++) {
             Rig rig = Rig.with(0260 | before, 06701).run(2);
             int n = before & N;
@@ -355,17 +359,17 @@ public final class BoundaryFlagsTest {
     }
 
     private static void noFlags() {
-        Check.sentence("(an instruction that names no flags leaves them)");
         for (int before : new int[] {0, 15}) {
             for (int word : new int[] {0111, 04511, 0200, 0400, 077001, 077101, 077201, 1, 5}) {
                 Rig rig = Rig.with(0260 | before, word).register(0, 600).register(1, 600).register(2, 1).memory(600, 5).run(2);
                 Check.same("flags behind " + Integer.toOctalString(word), rig.flags(), before);
             }
+            Rig back = Rig.with(05700, Rig.RTI, 0400).register(6, 700).memory(700, Rig.CODE + 4, before).run(3);
+            Check.same("flags behind RTI and BR", back.flags(), before);
         }
     }
 
     private static void atTheEnd() {
-        Check.sentence("FLAGS are set at the end, behind all that is written");
         Check.same("MOV of 0 to the status", Rig.with().move(0, Rig.STATUS).moved().flags(), Z);
         Check.same("MOV of 15 to the status", Rig.with().move(15, Rig.STATUS).moved().flags(), 0);
         Check.same("CLR of the status", Rig.with(0277, 05037, Rig.STATUS).run(2).r(8), Z);

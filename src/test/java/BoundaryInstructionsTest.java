@@ -4,38 +4,70 @@ public final class BoundaryInstructionsTest {
     private static final int RESERVED = 8;
 
     public static void main(String[] args) {
-        nothingWritten();
-        multiplyEven();
-        multiplyOdd();
-        multiplyStack();
-        exclusiveOr();
-        countDown();
-        countDownAtZero();
-        countDownFar();
-        moveFromRegister();
-        moveFromStack();
-        moveFromAddress();
-        moveTo();
-        moveToTaken();
-        extendSign();
-        jumpNoRegister();
-        callNoRegister();
-        callStack();
-        callSeven();
-        returnRegister();
-        flagsOfFour();
-        branchDistance();
-        branchWraps();
-        branchConditions();
-        emulator();
-        halt();
-        waits();
-        returnOfUser();
-        returnOfKernel();
-        resetKernel();
-        resetUnderWay();
-        resetUser();
-        reserved();
+        Check.sentence("CMP, BIT: nothing is written (TST likewise)",
+                BoundaryInstructionsTest::nothingWritten);
+        Check.sentence("070rd MUL: r and, when r is even, r + 1, become the product with signs (r the higher word)",
+                BoundaryInstructionsTest::multiplyEven);
+        Check.sentence("when r is odd, only the lower one",
+                BoundaryInstructionsTest::multiplyOdd);
+        Check.sentence("MUL of 6: 6 and 7 become the product",
+                BoundaryInstructionsTest::multiplyStack);
+        Check.sentence("074rd XOR with r",
+                BoundaryInstructionsTest::exclusiveOr);
+        Check.sentence("077rnn SOB: r falls by 1 (0 becomes 65535)",
+                BoundaryInstructionsTest::countDown);
+        Check.sentence("when it is not 0 then",
+                BoundaryInstructionsTest::countDownAtZero);
+        Check.sentence("register 7 falls by 2 nn",
+                BoundaryInstructionsTest::countDownFar);
+        Check.sentence("0065d MFPI (d of mode 0: the register, 6 that of the mode before)",
+                BoundaryInstructionsTest::moveFromRegister);
+        Check.sentence("0066d MTPI: goes there (6 that of the mode before)",
+                BoundaryInstructionsTest::moveFromStack);
+        Check.sentence("the word at d in the mode before (the address of d is found in this mode)",
+                BoundaryInstructionsTest::moveFromAddress);
+        Check.sentence("MTPI (there: by the mode before)",
+                BoundaryInstructionsTest::moveTo);
+        Check.sentence("the word from the stack (taken before d is found)",
+                BoundaryInstructionsTest::moveToTaken);
+        Check.sentence("0067d SXT: 0, or -1 when N",
+                BoundaryInstructionsTest::extendSign);
+        Check.sentence("0001d JMP (mode 0: RESERVED)",
+                BoundaryInstructionsTest::jumpNoRegister);
+        Check.sentence("004rd JSR: the address of d is found (likewise)",
+                BoundaryInstructionsTest::callNoRegister);
+        Check.sentence("r is put on the stack, r becomes register 7 (r is 6)",
+                BoundaryInstructionsTest::callStack);
+        Check.sentence("r becomes register 7, which becomes that address (r is 7)",
+                BoundaryInstructionsTest::callSeven);
+        Check.sentence("00020r RTS: 7 becomes r, r comes from the stack",
+                BoundaryInstructionsTest::returnRegister);
+        Check.sentence("00024n to 00027n: the flags of the lowest four bits become 0 (bit 4 of the word is 0) or 1",
+                BoundaryInstructionsTest::flagsOfFour);
+        Check.sentence("0004nn BR (nn 8 bits with a sign, twice it is added to 7)",
+                BoundaryInstructionsTest::branchDistance);
+        Check.sentence("BR below 0 and behind 65535 (words have 16 bits)",
+                BoundaryInstructionsTest::branchWraps);
+        Check.sentence("BGE N = V; BLT not; BGT also not Z; BLE the opposite; BHI neither C nor Z; BLOS the opposite",
+                BoundaryInstructionsTest::branchConditions);
+        Check.sentence("1040nn EMT, 1044nn TRAP",
+                BoundaryInstructionsTest::emulator);
+        Check.sentence("000000 HALT (user: reserved)",
+                BoundaryInstructionsTest::halt);
+        Check.sentence("WAIT: nothing is done, instruction by instruction, until an interrupt comes",
+                BoundaryInstructionsTest::waits);
+        Check.sentence("RTI: 7, then the status come from the stack (user: only bits 0 to 3 change)",
+                BoundaryInstructionsTest::returnOfUser);
+        Check.sentence("RTI: 7, then the status come from the stack (kernel)",
+                BoundaryInstructionsTest::returnOfKernel);
+        Check.sentence("RESET (kernel: map off, nothing enabled, printer and disk ready, keyboard not)",
+                BoundaryInstructionsTest::resetKernel);
+        Check.sentence("a character or transfer under way is neither printed nor done",
+                BoundaryInstructionsTest::resetUnderWay);
+        Check.sentence("RESET (user: nothing)",
+                BoundaryInstructionsTest::resetUser);
+        Check.sentence("All others: RESERVED",
+                BoundaryInstructionsTest::reserved);
         Check.end();
     }
 
@@ -44,7 +76,6 @@ public final class BoundaryInstructionsTest {
     }
 
     private static void nothingWritten() {
-        Check.sentence("CMP, BIT: nothing is written (TST likewise)");
         // It may only be read: writing would be an abort.
         for (int word : new int[] {022711, 032711, 0122711, 0132711}) {
             Rig rig = Rig.mapped().page(0, 1, 0x7F01, 12).move(1, Rig.CONTROL).moved().then(word, 5);
@@ -57,7 +88,6 @@ public final class BoundaryInstructionsTest {
     }
 
     private static void multiplyEven() {
-        Check.sentence("070rd MUL: r and, when r is even, r + 1, become the product with signs (r the higher word)");
         int[][] cases = {{32767, 32767, 0x3FFF, 1}, {32768, 32768, 0x4000, 0}, {32768, 32767, 0xC000, 0x8000},
             {65535, 65535, 0, 1}, {65535, 1, 65535, 65535}, {0, 65535, 0, 0}, {32768, 65535, 0, 0x8000}};
         for (int r = 0; r <= 4; r += 2) {
@@ -76,7 +106,6 @@ public final class BoundaryInstructionsTest {
     }
 
     private static void multiplyOdd() {
-        Check.sentence("when r is odd, only the lower one");
         for (int r = 1; r <= 5; r += 2) {
             Rig rig = Rig.with(070027 | r << 6, 32768);
             for (int other = 0; other < 6; other++) {
@@ -93,14 +122,12 @@ public final class BoundaryInstructionsTest {
     }
 
     private static void multiplyStack() {
-        Check.sentence("MUL of 6: 6 and 7 become the product");
         Rig rig = Rig.with(070627, 257).register(6, 256).run(1);
         Check.same("6", rig.r(6), 1);
         Check.same("7", rig.r(7), 256);
     }
 
     private static void exclusiveOr() {
-        Check.sentence("074rd XOR with r");
         for (int[] one : new int[][] {{0, 0, 0}, {65535, 65535, 0}, {65535, 0, 65535}, {0x5555, 0xFFFF, 0xAAAA}}) {
             Rig rig = Rig.with(074001, 074237, DATA).register(0, one[0]).register(1, one[1]).register(2, one[0]).memory(DATA, one[1]).run(2);
             Check.same("XOR of a register", rig.r(1), one[2]);
@@ -110,7 +137,6 @@ public final class BoundaryInstructionsTest {
     }
 
     private static void countDown() {
-        Check.sentence("077rnn SOB: r falls by 1 (0 becomes 65535)");
         for (int r = 0; r < 7; r++) {
             for (int[] one : new int[][] {{0, 65535}, {1, 0}, {2, 1}, {65535, 65534}, {32768, 32767}}) {
                 Rig rig = Rig.with(077000 | r << 6).register(r, one[0]).run(1);
@@ -120,7 +146,6 @@ public final class BoundaryInstructionsTest {
     }
 
     private static void countDownAtZero() {
-        Check.sentence("when it is not 0 then");
         for (int[] one : new int[][] {{1, 0}, {2, 1}, {0, 1}, {32769, 1}, {65535, 1}}) {
             Rig rig = Rig.with(Rig.NOP, 077305).register(3, one[0]).run(2);
             Check.same("7 of SOB of " + one[0], rig.r(7), Rig.CODE + 4 - 10 * one[1]);
@@ -128,7 +153,6 @@ public final class BoundaryInstructionsTest {
     }
 
     private static void countDownFar() {
-        Check.sentence("register 7 falls by 2 nn");
         for (int nn : new int[] {0, 1, 62, 63}) {
             Rig rig = Rig.with(077300 | nn).register(3, 2).run(1);
             Check.same("7 of SOB by " + nn, rig.r(7), Rig.CODE + 2 - 2 * nn);
@@ -140,7 +164,6 @@ public final class BoundaryInstructionsTest {
     }
 
     private static void moveFromRegister() {
-        Check.sentence("0065d MFPI (d of mode 0: the register, 6 that of the mode before)");
         for (int r = 0; r < 6; r++) {
             Rig rig = Rig.with(06500 | r).register(r, 65535 - r).run(1);
             Check.same("register " + r, rig.at(Rig.STACK - 2), 65535 - r);
@@ -156,7 +179,6 @@ public final class BoundaryInstructionsTest {
     }
 
     private static void moveFromStack() {
-        Check.sentence("0066d MTPI: goes there (6 that of the mode before)");
         Rig same = Rig.with(06606).register(6, 700).memory(700, 65535).run(1);
         Check.same("6 of this mode", same.r(6), 65535);
         Check.same("6 of the user", same.r(9), 0);
@@ -169,7 +191,6 @@ public final class BoundaryInstructionsTest {
     }
 
     private static void moveFromAddress() {
-        Check.sentence("the word at d in the mode before (the address of d is found in this mode)");
         // The user's page 0 begins at 128.
         Rig rig = Rig.mapped().page(1, 0, 0x0102, 2).move(1, Rig.CONTROL).move(0x1000, Rig.STATUS).moved();
         rig.then(06531, 06511, 06621).register(1, 100).memory(100, 40).memory(228, 50, 777).memory(40, 11).memory(168, 22).run(1);
@@ -188,7 +209,6 @@ public final class BoundaryInstructionsTest {
     }
 
     private static void moveTo() {
-        Check.sentence("MTPI (there: by the mode before)");
         Rig rig = Rig.mapped().page(1, 0, 0x0001, 2).move(1, Rig.CONTROL).move(0x1000, Rig.STATUS).moved();
         rig.then(06637, 10).register(6, 700).memory(138, 3).memory(700, 5).run(1);
         Check.same("trap", rig.trappedBy(), 168);
@@ -197,7 +217,6 @@ public final class BoundaryInstructionsTest {
     }
 
     private static void moveToTaken() {
-        Check.sentence("the word from the stack (taken before d is found)");
         Rig at = Rig.with(06616).register(6, 700).memory(700, 9, 8).run(1);
         Check.same("MTPI (6)", at.at(702), 9);
         Rig falls = Rig.with(06646).register(6, 700).memory(700, 9, 8).run(1);
@@ -210,7 +229,6 @@ public final class BoundaryInstructionsTest {
     }
 
     private static void extendSign() {
-        Check.sentence("0067d SXT: 0, or -1 when N");
         for (int flags = 0; flags < 16; flags++) {
             Rig rig = Rig.with(0260 | flags, 06700).register(0, 5).run(2);
             Check.same("SXT with flags " + flags, rig.r(0), (flags & 8) != 0 ? 65535 : 0);
@@ -218,7 +236,6 @@ public final class BoundaryInstructionsTest {
     }
 
     private static void jumpNoRegister() {
-        Check.sentence("0001d JMP (mode 0: RESERVED)");
         for (int r = 0; r < 8; r++) {
             Rig rig = Rig.with(0100 | r).vectors().register(r == 7 ? 0 : r, 600).register(6, Rig.STACK).run(1);
             Check.same("trap of JMP R" + r, rig.trappedBy(), RESERVED);
@@ -229,7 +246,6 @@ public final class BoundaryInstructionsTest {
     }
 
     private static void callNoRegister() {
-        Check.sentence("004rd JSR: the address of d is found (likewise)");
         for (int r = 0; r < 8; r++) {
             Rig rig = Rig.with(04500 | r).vectors().register(5, 1234).register(6, Rig.STACK).run(1);
             Check.same("trap of JSR R5, R" + r, rig.trappedBy(), RESERVED);
@@ -242,7 +258,6 @@ public final class BoundaryInstructionsTest {
     }
 
     private static void callStack() {
-        Check.sentence("r is put on the stack, r becomes register 7 (r is 6)");
         Rig rig = Rig.with(04637, 700).run(1);
         Check.same("what is put", rig.at(Rig.STACK - 2), Rig.STACK);
         Check.same("6", rig.r(6), Rig.CODE + 4);
@@ -250,7 +265,6 @@ public final class BoundaryInstructionsTest {
     }
 
     private static void callSeven() {
-        Check.sentence("r becomes register 7, which becomes that address (r is 7)");
         Rig rig = Rig.with(04737, 700).run(1);
         Check.same("what is put", rig.at(Rig.STACK - 2), Rig.CODE + 4);
         Check.same("7", rig.r(7), 700);
@@ -261,7 +275,6 @@ public final class BoundaryInstructionsTest {
     }
 
     private static void returnRegister() {
-        Check.sentence("00020r RTS: 7 becomes r, r comes from the stack");
         for (int r = 0; r < 6; r++) {
             Rig rig = Rig.with(0200 | r).register(r, 65535).register(6, 700).memory(700, 1234).run(1);
             Check.same("7 of RTS R" + r, rig.r(7), 65535);
@@ -280,7 +293,6 @@ public final class BoundaryInstructionsTest {
     }
 
     private static void flagsOfFour() {
-        Check.sentence("00024n to 00027n: the flags of the lowest four bits become 0 (bit 4 of the word is 0) or 1");
         for (int word = 0240; word <= 0277; word++) {
             for (int before = 0; before < 16; before++) {
                 Rig rig = Rig.with(0260 | before, word).run(2);
@@ -296,7 +308,6 @@ public final class BoundaryInstructionsTest {
     }
 
     private static void branchDistance() {
-        Check.sentence("0004nn BR (nn 8 bits with a sign, twice it is added to 7)");
         for (int nn : new int[] {0, 1, 126, 127, 128, 129, 254, 255}) {
             Rig rig = Rig.with(0400 | nn).run(1);
             Check.same("7 of BR " + nn, rig.r(7), Rig.CODE + 2 + 2 * (nn < 128 ? nn : nn - 256));
@@ -306,7 +317,6 @@ public final class BoundaryInstructionsTest {
     }
 
     private static void branchWraps() {
-        Check.sentence("BR below 0 and behind 65535 (words have 16 bits)");
         Rig below = Rig.with().memory(0, 0776, 0600);
         below.machine.start(0);
         below.run(1);
@@ -320,7 +330,6 @@ public final class BoundaryInstructionsTest {
     }
 
     private static void branchConditions() {
-        Check.sentence("BGE N = V; BLT not; BGT also not Z; BLE the opposite; BHI neither C nor Z; BLOS the opposite");
         int[] words = {02000, 02400, 03000, 03400, 0101000, 0101400};
         for (int flags = 0; flags < 16; flags++) {
             boolean z = (flags & 4) != 0;
@@ -335,7 +344,6 @@ public final class BoundaryInstructionsTest {
     }
 
     private static void emulator() {
-        Check.sentence("1040nn EMT, 1044nn TRAP");
         int[][] cases = {{0104000, 24}, {0104377, 24}, {0104400, 28}, {0104777, 28}, {0103777, 0}, {0105000, 0}};
         for (int[] one : cases) {
             Check.same("trap of " + octal(one[0]), Rig.with(one[0]).vectors().run(1).trappedBy(), one[1]);
@@ -343,7 +351,6 @@ public final class BoundaryInstructionsTest {
     }
 
     private static void halt() {
-        Check.sentence("000000 HALT (user: reserved)");
         Rig kernel = Rig.with(0).run(1);
         Check.same("state", kernel.machine.state(), 2);
         Check.same("7", kernel.r(7), Rig.CODE + 2);
@@ -353,7 +360,6 @@ public final class BoundaryInstructionsTest {
     }
 
     private static void waits() {
-        Check.sentence("WAIT: nothing is done, instruction by instruction, until an interrupt comes");
         for (Rig rig : new Rig[] {Rig.with(1, 05200), Rig.user(700, 1, 05200)}) {
             rig.run(1);
             int seven = rig.r(7);
@@ -382,7 +388,6 @@ public final class BoundaryInstructionsTest {
     }
 
     private static void returnOfUser() {
-        Check.sentence("RTI: 7, then the status come from the stack (user: only bits 0 to 3 change)");
         for (int value : new int[] {65535, 0, 0x50E0, 15, 0x00EF}) {
             Rig rig = Rig.user(700, Rig.RTI).memory(700, 600, value).run(1);
             Check.same("7", rig.r(7), 600);
@@ -394,7 +399,6 @@ public final class BoundaryInstructionsTest {
     }
 
     private static void returnOfKernel() {
-        Check.sentence("RTI: 7, then the status come from the stack (kernel)");
         for (int value : new int[] {65535, 0, 0x50E0, 15, 0x4000, 0xAF10}) {
             Rig rig = Rig.with(Rig.RTI).register(6, 700).memory(700, 65535, value).run(1);
             Check.same("7", rig.r(7), 65535);
@@ -409,7 +413,6 @@ public final class BoundaryInstructionsTest {
     }
 
     private static void resetKernel() {
-        Check.sentence("RESET (kernel: map off, nothing enabled, printer and disk ready, keyboard not)");
         Rig rig = Rig.mapped().move(64, Rig.KEYBOARD_STATUS).move(64, Rig.PRINTER_STATUS).move(0, Rig.PRINTER_CHARACTER)
                 .move(65, Rig.DISK_STATUS).move(1, Rig.CONTROL).moved().then(Rig.RESET, Rig.NOP);
         rig.machine.key(65);
@@ -427,7 +430,6 @@ public final class BoundaryInstructionsTest {
     }
 
     private static void resetUnderWay() {
-        Check.sentence("a character or transfer under way is neither printed nor done");
         for (int before = 0; before <= 3; before++) {
             Rig rig = Rig.with().move(1, Rig.DISK_COUNT).move(700, Rig.DISK_ADDRESS).move(65, Rig.PRINTER_CHARACTER);
             rig.machine.load(0, 0, 5);
@@ -453,7 +455,6 @@ public final class BoundaryInstructionsTest {
     }
 
     private static void resetUser() {
-        Check.sentence("RESET (user: nothing)");
         Rig rig = Rig.with().move(64, Rig.KEYBOARD_STATUS).move(64, Rig.PRINTER_STATUS).move(1, Rig.DISK_COUNT)
                 .move(700, Rig.DISK_ADDRESS).move(65, Rig.DISK_STATUS).move(65, Rig.PRINTER_CHARACTER).move(0x40E0, Rig.STATUS).moved();
         rig.machine.load(0, 0, 5);
@@ -471,7 +472,6 @@ public final class BoundaryInstructionsTest {
     }
 
     private static void reserved() {
-        Check.sentence("All others: RESERVED");
         for (int word : new int[] {6, 7, 077, 0100, 0107, 0210, 0237, 04000, 04707, 06400, 06477, 07000, 07777, 071000, 071777, 072000,
             072777, 073000, 073777, 075000, 075777, 076000, 076777, 0106400, 0106777, 0107000, 0107777, 0170000, 0177777}) {
             Rig rig = Rig.with(0277, word).vectors().run(2);

@@ -7,29 +7,52 @@ public final class BoundaryMapTest {
     private static final int WRITE = 05011;
 
     public static void main(String[] args) {
-        off();
-        pages();
-        within();
-        modesOfPages();
-        none();
-        readOnly();
-        both();
-        lastBlock();
-        baseBits();
-        modulo();
-        firstOfThese();
-        bitOfAbort();
-        inPlaceOfOthers();
-        pageAndMode();
-        nothingWhenSet();
-        oddBeforeMap();
-        bytesByMap();
-        missingByMap();
-        descriptorBits();
-        descriptorPlaces();
-        basePlaces();
-        controlBits();
-        controlAtOnce();
+        Check.sentence("While the map is off, it is the address itself",
+                BoundaryMapTest::off);
+        Check.sentence("a PAGE, its highest three bits",
+                BoundaryMapTest::pages);
+        Check.sentence("and 13 bits within",
+                BoundaryMapTest::within);
+        Check.sentence("page p of mode m has a DESCRIPTOR and a BASE",
+                BoundaryMapTest::modesOfPages);
+        Check.sentence("0 and 3 NONE",
+                BoundaryMapTest::none);
+        Check.sentence("1 to be READ; 4 when it is to be written and may only be read",
+                BoundaryMapTest::readOnly);
+        Check.sentence("2 BOTH",
+                BoundaryMapTest::both);
+        Check.sentence("2 when the block (within / 64) is above the last (bits 8 to 14)",
+                BoundaryMapTest::lastBlock);
+        Check.sentence("a BASE (10 bits)",
+                BoundaryMapTest::baseBits);
+        Check.sentence("the address is 64 * base + what is within, modulo 65536",
+                BoundaryMapTest::modulo);
+        Check.sentence("the first of these",
+                BoundaryMapTest::firstOfThese);
+        Check.sentence("control then has bit 15, 14 or 13 for it",
+                BoundaryMapTest::bitOfAbort);
+        Check.sentence("(in place of others)",
+                BoundaryMapTest::inPlaceOfOthers);
+        Check.sentence("the page in bits 1 to 3, the mode in bit 4",
+                BoundaryMapTest::pageAndMode);
+        Check.sentence("unless one of these three was set before (then nothing)",
+                BoundaryMapTest::nothingWhenSet);
+        Check.sentence("A word at an odd address is missing (this is looked at before the map)",
+                BoundaryMapTest::oddBeforeMap);
+        Check.sentence("(a byte at an odd address is not missing, the map is looked at)",
+                BoundaryMapTest::bytesByMap);
+        Check.sentence("What the map makes of an address may be missing (all others are MISSING)",
+                BoundaryMapTest::missingByMap);
+        Check.sentence("57344 + 16 m + 2 p the descriptor (bits not named are 0 and stay so)",
+                BoundaryMapTest::descriptorBits);
+        Check.sentence("57344 + 16 m + 2 p the descriptor of page p of mode m",
+                BoundaryMapTest::descriptorPlaces);
+        Check.sentence("57376 + 16 m + 2 p the base of page p of mode m",
+                BoundaryMapTest::basePlaces);
+        Check.sentence("57408 control of the map: bit 0 on, 13 to 15, 1 to 4 as said; all these can be written",
+                BoundaryMapTest::controlBits);
+        Check.sentence("While it is on (from the writing of control on)",
+                BoundaryMapTest::controlAtOnce);
         Check.end();
     }
 
@@ -55,7 +78,6 @@ public final class BoundaryMapTest {
     }
 
     private static void off() {
-        Check.sentence("While the map is off, it is the address itself");
         Rig rig = Rig.with().page(0, 0, 0, 3).moved().then(013700, 0, 05037, 1022).memory(0, 77).memory(1022, 88).run(2);
         Check.same("the word at 0", rig.r(0), 77);
         Check.same("the word at 1022", rig.at(1022), 0);
@@ -64,7 +86,6 @@ public final class BoundaryMapTest {
     }
 
     private static void pages() {
-        Check.sentence("a PAGE, its highest three bits");
         for (int page = 1; page < 7; page++) {
             Rig rig = Rig.mapped().page(0, page, 0x7F02, 12 + page % 4).move(ON, Rig.CONTROL).moved();
             rig.then(011102).register(1, 8192 * page).memory(768, 10, 11).memory(832, 20, 21).memory(896, 30, 31).memory(960, 40, 41);
@@ -81,7 +102,6 @@ public final class BoundaryMapTest {
     }
 
     private static void within() {
-        Check.sentence("and 13 bits within");
         // The last word of page 1 and the first one of page 2 are far from one another.
         Rig rig = Rig.mapped().page(0, 1, 0x7F02, baseFor(8190)).page(0, 2, 0x7F02, 12).move(ON, Rig.CONTROL).moved();
         rig.then(012102, 012103).register(1, 16382).memory(896 + 62, 0x5234).memory(768, 0x6789).run(2);
@@ -94,7 +114,6 @@ public final class BoundaryMapTest {
     }
 
     private static void modesOfPages() {
-        Check.sentence("page p of mode m has a DESCRIPTOR and a BASE");
         Rig rig = Rig.mapped().page(1, 0, 0x7F02, 12).page(1, 7, 0x7F02, 13).move(ON, Rig.CONTROL).move(0x1000, Rig.STATUS).moved();
         rig.then(06537, 0, 06537, 57344).memory(768, 111).memory(832, 222).run(2);
         Check.same("page 0 of the user", rig.at(Rig.STACK - 2), 111);
@@ -104,7 +123,6 @@ public final class BoundaryMapTest {
     }
 
     private static void none() {
-        Check.sentence("0 and 3 NONE");
         for (int descriptor : new int[] {0, 3, 0x7F00, 0x7F03}) {
             access(READ, descriptor, 0, 1);
             access(WRITE, descriptor, 0, 1);
@@ -113,7 +131,6 @@ public final class BoundaryMapTest {
     }
 
     private static void readOnly() {
-        Check.sentence("1 to be READ; 4 when it is to be written and may only be read");
         access(READ, 0x7F01, 0, 0);
         access(READ, 0x7F01, 8190, 0);
         access(WRITE, 0x7F01, 0, 4);
@@ -125,7 +142,6 @@ public final class BoundaryMapTest {
     }
 
     private static void both() {
-        Check.sentence("2 BOTH");
         for (int within : new int[] {0, 62, 64, 4096, 8128, 8190}) {
             access(READ, 0x7F02, within, 0);
             access(WRITE, 0x7F02, within, 0);
@@ -133,7 +149,6 @@ public final class BoundaryMapTest {
     }
 
     private static void lastBlock() {
-        Check.sentence("2 when the block (within / 64) is above the last (bits 8 to 14)");
         for (int last : new int[] {0, 1, 63, 64, 126, 127}) {
             for (int word : new int[] {READ, WRITE}) {
                 access(word, last << 8 | 2, 64 * last, 0);
@@ -149,7 +164,6 @@ public final class BoundaryMapTest {
     }
 
     private static void baseBits() {
-        Check.sentence("a BASE (10 bits)");
         for (int base : new int[] {1024 + 12, 65535 - 1023 + 12}) {
             Rig rig = one(011102, 8192, 0x7F02, base).memory(768, 77);
             Check.same("base", rig.device(Rig.base(0, 1)), 12);
@@ -161,7 +175,6 @@ public final class BoundaryMapTest {
     }
 
     private static void modulo() {
-        Check.sentence("the address is 64 * base + what is within, modulo 65536");
         Rig first = one(011102, 8192 + 64, 0x7F02, 1023).memory(0, 77).run(1);
         Check.same("behind 65535 comes 0", first.r(2), 77);
         Rig last = one(011102, 8192 + 62, 0x7F02, 1023).run(1);
@@ -173,7 +186,6 @@ public final class BoundaryMapTest {
     }
 
     private static void firstOfThese() {
-        Check.sentence("the first of these");
         access(READ, 0x0100, 128, 1);
         access(WRITE, 0x0103, 128, 1);
         access(WRITE, 0x0101, 128, 2);
@@ -183,7 +195,6 @@ public final class BoundaryMapTest {
     }
 
     private static void bitOfAbort() {
-        Check.sentence("control then has bit 15, 14 or 13 for it");
         int[][] cases = {{0x7F00, 0, 0x8000}, {0x0002, 64, 0x4000}, {0x7F01, 0, 0x2000}};
         for (int[] one : cases) {
             Rig rig = one(WRITE, 8192 + one[1], one[0], baseFor(one[1])).run(1);
@@ -192,7 +203,6 @@ public final class BoundaryMapTest {
     }
 
     private static void inPlaceOfOthers() {
-        Check.sentence("(in place of others)");
         // Page 7 and mode 1 stand there by hand, with no abort's bit.
         Rig rig = Rig.mapped().move(0x1E | ON, Rig.CONTROL).moved().then(05737, 8192).run(1);
         Check.same("control", rig.device(Rig.CONTROL), 0x8000 | 1 << 1 | ON);
@@ -206,7 +216,6 @@ public final class BoundaryMapTest {
     }
 
     private static void pageAndMode() {
-        Check.sentence("the page in bits 1 to 3, the mode in bit 4");
         for (int page = 1; page < 7; page++) {
             Rig rig = Rig.mapped().move(ON, Rig.CONTROL).moved().then(05737, 8192 * page + 10).run(1);
             Check.same("control of page " + page, rig.device(Rig.CONTROL), 0x8000 | page << 1 | ON);
@@ -218,7 +227,6 @@ public final class BoundaryMapTest {
     }
 
     private static void nothingWhenSet() {
-        Check.sentence("unless one of these three was set before (then nothing)");
         for (int before : new int[] {0x8000, 0x4000, 0x2000, 0xE000, 0x2014}) {
             Rig rig = Rig.mapped().page(0, 1, 0x0001, 12).move(before | ON, Rig.CONTROL).moved().then(05037, 8192).run(1);
             Check.same("trap", rig.trappedBy(), ABORT);
@@ -229,7 +237,6 @@ public final class BoundaryMapTest {
     }
 
     private static void oddBeforeMap() {
-        Check.sentence("A word at an odd address is missing (this is looked at before the map)");
         for (int descriptor : new int[] {0, 0x0001, 0x7F02}) {
             for (int word : new int[] {READ, WRITE}) {
                 Rig rig = one(word, 8192 + 65, descriptor, 12).run(1);
@@ -244,7 +251,6 @@ public final class BoundaryMapTest {
     }
 
     private static void bytesByMap() {
-        Check.sentence("(a byte at an odd address is not missing, the map is looked at)");
         Rig rig = one(0111102, 8192 + 1, 0x0001, 12).memory(768, 0x4321).run(1);
         Check.same("the byte", rig.r(2), 0x43);
         Rig abort = one(0105711, 8192 + 65, 0x0001, 12).run(1);
@@ -254,7 +260,6 @@ public final class BoundaryMapTest {
     }
 
     private static void missingByMap() {
-        Check.sentence("What the map makes of an address may be missing (all others are MISSING)");
         for (int[] one : new int[][] {{16, MISSING}, {15, 0}, {895, MISSING}, {896, 0}, {899, MISSING}, {1023, MISSING}}) {
             Rig rig = one(READ, 8192, 0x7F02, one[0]).run(1);
             Check.same("trap of base " + one[0], rig.trappedBy(), one[1]);
@@ -265,7 +270,6 @@ public final class BoundaryMapTest {
     // The device registers of the map.
 
     private static void descriptorBits() {
-        Check.sentence("57344 + 16 m + 2 p the descriptor (bits not named are 0 and stay so)");
         for (int value : new int[] {65535, 0x80FC, 0x7F03, 0}) {
             Rig rig = Rig.with().move(value, 57344).move(value, 57374).moved();
             Check.same("the first", rig.device(57344), value & 0x7F03);
@@ -274,7 +278,6 @@ public final class BoundaryMapTest {
     }
 
     private static void descriptorPlaces() {
-        Check.sentence("57344 + 16 m + 2 p the descriptor of page p of mode m");
         for (int i = 0; i < 16; i++) {
             Rig rig = Rig.with().move(0x7F01, 57344 + 16 * (i / 8) + 2 * (i % 8)).moved();
             for (int j = 0; j < 16; j++) {
@@ -285,7 +288,6 @@ public final class BoundaryMapTest {
     }
 
     private static void basePlaces() {
-        Check.sentence("57376 + 16 m + 2 p the base of page p of mode m");
         for (int i = 0; i < 16; i++) {
             Rig rig = Rig.with().move(1023, 57376 + 16 * (i / 8) + 2 * (i % 8)).moved();
             for (int j = 0; j < 16; j++) {
@@ -296,7 +298,6 @@ public final class BoundaryMapTest {
     }
 
     private static void controlBits() {
-        Check.sentence("57408 control of the map: bit 0 on, 13 to 15, 1 to 4 as said; all these can be written");
         Rig all = Rig.mapped().move(65535, Rig.CONTROL).moved();
         Check.same("all", all.device(Rig.CONTROL), 0xE01F);
         for (int bit = 1; bit < 16; bit++) {
@@ -308,7 +309,6 @@ public final class BoundaryMapTest {
     }
 
     private static void controlAtOnce() {
-        Check.sentence("While it is on (from the writing of control on)");
         Rig rig = Rig.with().vectors().move(ON, Rig.CONTROL).moved();
         Check.same("run(2)", rig.machine.run(2), 1);
         Check.same("no page for the next instruction, nor for its trap", rig.machine.state(), 3);

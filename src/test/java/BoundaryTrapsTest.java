@@ -4,32 +4,58 @@ public final class BoundaryTrapsTest {
     private static final int LOOP = 0777;
 
     public static void main(String[] args) {
-        vectors();
-        deviceVectors();
-        asByTheKernel();
-        modeBefore();
-        newStack();
-        sevenOfTrap();
-        stackMissing();
-        stackAborted();
-        vectorMissing();
-        doneStays();
-        doneNoFurther();
-        goesOnBehindTrap();
-        notWhenHalted();
-        notBegunWhenHalted();
-        order();
-        oneAtATime();
-        bothNeeded();
-        becameSo();
-        notLookedAtBetween();
-        priorityDisk();
-        priorityOthers();
-        statusThatIsThen();
-        waitsAsLong();
-        lostWhenNot();
-        interruptOfUser();
-        interruptWrong();
+        Check.sentence("Vectors: 4 missing, 8 reserved, 12 BPT, 16 IOT, 24 EMT, 28 TRAP, 168 abort",
+                BoundaryTrapsTest::vectors);
+        Check.sentence("48 keyboard, 52 printer, 144 disk",
+                BoundaryTrapsTest::deviceVectors);
+        Check.sentence("the words at vector and vector + 2 are read, as by the kernel",
+                BoundaryTrapsTest::asByTheKernel);
+        Check.sentence("the second one becomes the status, with the kept mode as the mode before",
+                BoundaryTrapsTest::modeBefore);
+        Check.sentence("the kept status, then the kept 7 go on the stack (of the new mode)",
+                BoundaryTrapsTest::newStack);
+        Check.sentence("7 becomes the first one",
+                BoundaryTrapsTest::sevenOfTrap);
+        Check.sentence("When there is something missing in a trap: the machine HALTS",
+                BoundaryTrapsTest::stackMissing);
+        Check.sentence("When there is an abort in a trap: the machine HALTS",
+                BoundaryTrapsTest::stackAborted);
+        Check.sentence("(a vector that is missing, or whose page is none)",
+                BoundaryTrapsTest::vectorMissing);
+        Check.sentence("What an instruction has done before an abort or something missing stays so",
+                BoundaryTrapsTest::doneStays);
+        Check.sentence("it is done no further",
+                BoundaryTrapsTest::doneNoFurther);
+        Check.sentence("Behind each instruction (or trap of it) what goes on in printer and disk goes on by one",
+                BoundaryTrapsTest::goesOnBehindTrap);
+        Check.sentence("(not when it has halted)",
+                BoundaryTrapsTest::notWhenHalted);
+        Check.sentence("(an interrupt is not looked for when it has halted)",
+                BoundaryTrapsTest::notBegunWhenHalted);
+        Check.sentence("disk (priority 5), keyboard, printer (4), in this order",
+                BoundaryTrapsTest::order);
+        Check.sentence("then an INTERRUPT is looked for (one)",
+                BoundaryTrapsTest::oneAtATime);
+        Check.sentence("one that is ready and enabled",
+                BoundaryTrapsTest::bothNeeded);
+        Check.sentence("became so since it was looked at last (by going from not both to both)",
+                BoundaryTrapsTest::becameSo);
+        Check.sentence("(it goes from both to not both and back, with no look between)",
+                BoundaryTrapsTest::notLookedAtBetween);
+        Check.sentence("disk (priority 5): whose priority is above that of the status",
+                BoundaryTrapsTest::priorityDisk);
+        Check.sentence("keyboard, printer (4): whose priority is above that of the status",
+                BoundaryTrapsTest::priorityOthers);
+        Check.sentence("that of the status (what an instruction writes there holds)",
+                BoundaryTrapsTest::statusThatIsThen);
+        Check.sentence("One that is not taken waits, as long as both hold",
+                BoundaryTrapsTest::waitsAsLong);
+        Check.sentence("(it is lost when one of both does not hold)",
+                BoundaryTrapsTest::lostWhenNot);
+        Check.sentence("a trap (of the user, by an interrupt)",
+                BoundaryTrapsTest::interruptOfUser);
+        Check.sentence("When there is something missing in a trap: the machine HALTS (by an interrupt)",
+                BoundaryTrapsTest::interruptWrong);
         Check.end();
     }
 
@@ -42,8 +68,16 @@ public final class BoundaryTrapsTest {
         return rig;
     }
 
+    /** So many instructions, and no interrupt behind one of them. */
+    private static Rig undisturbed(String what, Rig rig, int n) {
+        for (int i = 0; i < n; i++) {
+            rig.run(1);
+            Check.same("interrupt of what is " + what, rig.trappedBy(), 0);
+        }
+        return rig;
+    }
+
     private static void vectors() {
-        Check.sentence("Vectors: 4 missing, 8 reserved, 12 BPT, 16 IOT, 24 EMT, 28 TRAP, 168 abort");
         int[][] cases = {{05711, 4}, {7, 8}, {3, 12}, {4, 16}, {0104000, 24}, {0104400, 28}};
         for (int[] one : cases) {
             Rig rig = Rig.with(one[0]).register(1, 65535).memory(one[1], 600, 0x00E3).run(1);
@@ -57,7 +91,6 @@ public final class BoundaryTrapsTest {
     }
 
     private static void deviceVectors() {
-        Check.sentence("48 keyboard, 52 printer, 144 disk");
         int[][] cases = {{Rig.KEYBOARD_STATUS, 48}, {Rig.PRINTER_STATUS, 52}, {Rig.DISK_STATUS, 144}};
         for (int[] one : cases) {
             Rig rig = Rig.with(Rig.CLEAR, Rig.STATUS).move(ENABLED, one[0]).memory(one[1], 600, 0x00E3);
@@ -69,7 +102,6 @@ public final class BoundaryTrapsTest {
     }
 
     private static void asByTheKernel() {
-        Check.sentence("the words at vector and vector + 2 are read, as by the kernel");
         // The user's page 0 begins at 128; the kernel's one is memory itself.
         Rig rig = Rig.mapped().page(1, 0, 0x7F02, 2).move(1, Rig.CONTROL).move(Rig.USER, Rig.STATUS).moved();
         rig.memory(rig.end() + 128, 0104400).memory(28, 600, 0x0060).memory(156, 700, 0x0080).run(1);
@@ -78,7 +110,6 @@ public final class BoundaryTrapsTest {
     }
 
     private static void modeBefore() {
-        Check.sentence("the second one becomes the status, with the kept mode as the mode before");
         for (int value : new int[] {0, 0x1000, 0x4000, 0x5000, 65535}) {
             Rig kernel = Rig.with(3).memory(12, 600, value).run(1);
             Check.same("status of the kernel's trap", kernel.r(8), value & 0x40EF);
@@ -88,7 +119,6 @@ public final class BoundaryTrapsTest {
     }
 
     private static void newStack() {
-        Check.sentence("the kept status, then the kept 7 go on the stack (of the new mode)");
         Rig up = Rig.user(700, 3).memory(12, 600, 0).run(1);
         Check.same("6 of the kernel", up.r(6), Rig.STACK - 4);
         Check.same("status", up.at(Rig.STACK - 2), Rig.USER);
@@ -105,7 +135,6 @@ public final class BoundaryTrapsTest {
     }
 
     private static void sevenOfTrap() {
-        Check.sentence("7 becomes the first one");
         for (int seven : new int[] {0, 1, 1023, 1024, 65535}) {
             Rig rig = Rig.with(3).memory(12, seven, 224).run(1);
             Check.same("7", rig.r(7), seven);
@@ -114,7 +143,6 @@ public final class BoundaryTrapsTest {
     }
 
     private static void stackMissing() {
-        Check.sentence("When there is something missing in a trap: the machine HALTS");
         for (int stack : new int[] {0, 2, 1, 3, 511, 1026, 1028, 2000, 57434, 57472}) {
             Rig rig = Rig.with(3).memory(12, 600, 3).register(6, stack);
             Check.same("run(2) with the stack at " + stack, rig.machine.run(2), 1);
@@ -137,7 +165,6 @@ public final class BoundaryTrapsTest {
     }
 
     private static void stackAborted() {
-        Check.sentence("When there is an abort in a trap: the machine HALTS");
         for (int descriptor : new int[] {0, 0x0001, 0x0002}) {
             Rig rig = Rig.mapped().page(0, 1, descriptor, 2).move(1, Rig.CONTROL).moved().then(3).register(6, 8192 + 70);
             Check.same("run(2)", rig.machine.run(2), 1);
@@ -157,7 +184,6 @@ public final class BoundaryTrapsTest {
     }
 
     private static void vectorMissing() {
-        Check.sentence("(a vector that is missing, or whose page is none)");
         Rig rig = Rig.with().vectors().page(1, 0, 0x7F02, 0).page(1, 7, 0x7F02, 896).move(Rig.USER, Rig.STATUS)
                 .move(1, Rig.CONTROL).moved().then(3);
         Check.same("run(2)", rig.machine.run(2), 1);
@@ -173,7 +199,6 @@ public final class BoundaryTrapsTest {
     }
 
     private static void doneStays() {
-        Check.sentence("What an instruction has done before an abort or something missing stays so");
         Rig grown = Rig.with(012241, 0).vectors().register(1, 2000).register(2, 700).memory(700, 5).run(1);
         Check.same("trap", grown.trappedBy(), 4);
         Check.same("register 2 has grown", grown.r(2), 702);
@@ -193,7 +218,6 @@ public final class BoundaryTrapsTest {
     }
 
     private static void doneNoFurther() {
-        Check.sentence("it is done no further");
         Rig source = Rig.with(0277, 013721, 2000).vectors().register(1, 700).memory(700, 5).run(2);
         Check.same("register 1", source.r(1), 700);
         Check.same("the word", source.at(700), 5);
@@ -217,7 +241,6 @@ public final class BoundaryTrapsTest {
     // What goes on, and interrupts.
 
     private static void goesOnBehindTrap() {
-        Check.sentence("Behind each instruction (or trap of it) what goes on in printer and disk goes on by one");
         Rig rig = Rig.with().move(65, Rig.PRINTER_CHARACTER).then(3).memory(12, 600, 224).memory(600, 4).memory(16, 602, 224)
                 .memory(602, 7).memory(8, 604, 224).memory(604, 0104400).memory(28, 606, 224).memory(606, LOOP).run(4);
         Check.same("behind the third trap", rig.machine.printed(-1), 0);
@@ -230,7 +253,6 @@ public final class BoundaryTrapsTest {
     }
 
     private static void notWhenHalted() {
-        Check.sentence("(not when it has halted)");
         Rig rig = Rig.with().move(65, Rig.PRINTER_CHARACTER).then(Rig.NOP, Rig.NOP, Rig.NOP, Rig.HALT, LOOP).run(5);
         Check.same("printed behind HALT", rig.machine.printed(-1), 0);
         Check.same("state", rig.machine.state(), 2);
@@ -245,7 +267,6 @@ public final class BoundaryTrapsTest {
     }
 
     private static void notBegunWhenHalted() {
-        Check.sentence("(an interrupt is not looked for when it has halted)");
         Rig rig = returning().then(Rig.CLEAR, Rig.STATUS).move(ENABLED, Rig.KEYBOARD_STATUS).then(Rig.HALT, Rig.NOP).run(2);
         rig.machine.key(65);
         rig.run(1);
@@ -257,7 +278,6 @@ public final class BoundaryTrapsTest {
     }
 
     private static void order() {
-        Check.sentence("disk (priority 5), keyboard, printer (4), in this order");
         Rig rig = returning().move(ENABLED, Rig.PRINTER_STATUS).move(ENABLED, Rig.KEYBOARD_STATUS).move(ENABLED, Rig.DISK_STATUS)
                 .then(Rig.CLEAR, Rig.STATUS, LOOP);
         rig.machine.key(65);
@@ -269,7 +289,6 @@ public final class BoundaryTrapsTest {
     }
 
     private static void oneAtATime() {
-        Check.sentence("then an INTERRUPT is looked for (one)");
         Rig rig = returning().vector(48, 0).move(ENABLED, Rig.PRINTER_STATUS).move(ENABLED, Rig.KEYBOARD_STATUS).then(Rig.CLEAR, Rig.STATUS);
         rig.machine.key(65);
         rig.run(3);
@@ -283,21 +302,20 @@ public final class BoundaryTrapsTest {
     }
 
     private static void bothNeeded() {
-        Check.sentence("one that is ready and enabled");
         int[] places = {Rig.KEYBOARD_STATUS, Rig.PRINTER_STATUS, Rig.DISK_STATUS};
         for (int place : places) {
-            Rig ready = returning().then(Rig.CLEAR, Rig.STATUS, LOOP);
+            Rig ready = returning().then(Rig.CLEAR, Rig.STATUS).move(65, Rig.PRINTER_CHARACTER).move(1, Rig.DISK_STATUS).then(LOOP);
             ready.machine.key(65);
-            ready.run(40);
-            Check.same("ready alone", ready.trappedBy(), 0);
+            undisturbed("ready alone", ready, 15);
+            Check.same("ready", ready.device(place), 128);
             Rig enabled = returning().then(Rig.CLEAR, Rig.STATUS).move(65, Rig.PRINTER_CHARACTER).move(1, Rig.DISK_STATUS)
-                    .move(ENABLED, place).run(4);
-            Check.same("enabled alone", enabled.trappedBy(), 0);
+                    .move(ENABLED, place);
+            undisturbed("enabled alone", enabled, 4);
+            Check.same("enabled", enabled.device(place), ENABLED);
         }
     }
 
     private static void becameSo() {
-        Check.sentence("became so since it was looked at last (by going from not both to both)");
         int[][] cases = {{Rig.KEYBOARD_STATUS, 48}, {Rig.PRINTER_STATUS, 52}, {Rig.DISK_STATUS, 144}};
         for (int[] one : cases) {
             Rig rig = returning().then(Rig.CLEAR, Rig.STATUS).move(ENABLED, one[0]).move(ENABLED, one[0]).move(0, one[0])
@@ -318,7 +336,6 @@ public final class BoundaryTrapsTest {
     }
 
     private static void notLookedAtBetween() {
-        Check.sentence("(it goes from both to not both and back, with no look between)");
         // The character is read by an instruction whose trap halts, and comes again: that is from not both to both.
         Rig rig = returning().then(Rig.CLEAR, Rig.STATUS).move(ENABLED, Rig.KEYBOARD_STATUS)
                 .then(013737, Rig.KEYBOARD_CHARACTER, 2000, Rig.CLEAR, Rig.STATUS);
@@ -346,12 +363,10 @@ public final class BoundaryTrapsTest {
     }
 
     private static void priorityDisk() {
-        Check.sentence("disk (priority 5): whose priority is above that of the status");
         priority(Rig.DISK_STATUS, 144, 5);
     }
 
     private static void priorityOthers() {
-        Check.sentence("keyboard, printer (4): whose priority is above that of the status");
         priority(Rig.KEYBOARD_STATUS, 48, 4);
         priority(Rig.PRINTER_STATUS, 52, 4);
         // The disk's priority hides nothing: at 4 it comes alone.
@@ -359,12 +374,12 @@ public final class BoundaryTrapsTest {
         rig.machine.key(65);
         rig.run(3);
         Check.same("interrupt", rig.trappedBy(), 144);
-        rig.run(3);
+        rig.run(1);
+        undisturbed("at the status", rig, 5);
         Check.same("7", rig.r(7), rig.end() - 2);
     }
 
     private static void statusThatIsThen() {
-        Check.sentence("that of the status (what an instruction writes there holds)");
         Rig lower = returning().move(ENABLED, Rig.PRINTER_STATUS).move(96, Rig.STATUS).run(2);
         Check.same("interrupt at 3", lower.trappedBy(), 52);
         Check.same("status that is kept", lower.at(lower.r(6) + 2), 96);
@@ -376,46 +391,37 @@ public final class BoundaryTrapsTest {
     }
 
     private static void waitsAsLong() {
-        Check.sentence("One that is not taken waits, as long as both hold");
         int[][] cases = {{Rig.KEYBOARD_STATUS, 48}, {Rig.PRINTER_STATUS, 52}, {Rig.DISK_STATUS, 144}};
         for (int[] one : cases) {
             Rig rig = returning().move(ENABLED, one[0]).then(LOOP);
             rig.machine.key(65);
-            rig.run(1).run(40).run(40);
-            Check.same("none", rig.trappedBy(), 0);
+            undisturbed("below the status", rig, 80);
             rig.memory(600, Rig.CLEAR, Rig.STATUS).register(7, 600).run(1);
             Check.same("interrupt", rig.trappedBy(), one[1]);
         }
     }
 
     private static void lostWhenNot() {
-        Check.sentence("(it is lost when one of both does not hold)");
         int[] places = {Rig.KEYBOARD_STATUS, Rig.PRINTER_STATUS, Rig.DISK_STATUS};
         for (int place : places) {
             Rig rig = returning().move(ENABLED, place).move(0, place).then(Rig.CLEAR, Rig.STATUS, LOOP);
             rig.machine.key(65);
-            rig.run(10);
-            Check.same("none that is not enabled", rig.trappedBy(), 0);
+            undisturbed("not enabled any more", rig, 10);
         }
         Rig read = returning().move(ENABLED, Rig.KEYBOARD_STATUS).then(05737, Rig.KEYBOARD_CHARACTER, Rig.CLEAR, Rig.STATUS, LOOP);
         read.machine.key(65);
-        read.run(10);
-        Check.same("none that was read", read.trappedBy(), 0);
-        Rig prints = returning().move(ENABLED, Rig.PRINTER_STATUS).move(65, Rig.PRINTER_CHARACTER).then(Rig.CLEAR, Rig.STATUS, LOOP).run(5);
-        Check.same("none that prints", prints.trappedBy(), 0);
-        prints.run(1);
+        undisturbed("read", read, 10);
+        Rig prints = returning().move(ENABLED, Rig.PRINTER_STATUS).move(65, Rig.PRINTER_CHARACTER).then(Rig.CLEAR, Rig.STATUS, LOOP);
+        undisturbed("printing", prints, 5).run(1);
         Check.same("when it is printed", prints.trappedBy(), 52);
-        Rig goes = returning().move(ENABLED, Rig.DISK_STATUS).move(ENABLED | 1, Rig.DISK_STATUS).then(Rig.CLEAR, Rig.STATUS, LOOP).run(9);
-        Check.same("none while it goes", goes.trappedBy(), 0);
-        goes.run(1);
+        Rig goes = returning().move(ENABLED, Rig.DISK_STATUS).move(ENABLED | 1, Rig.DISK_STATUS).then(Rig.CLEAR, Rig.STATUS, LOOP);
+        undisturbed("going", goes, 9).run(1);
         Check.same("when it has gone", goes.trappedBy(), 144);
         Rig reset = returning().move(ENABLED, Rig.PRINTER_STATUS).move(ENABLED, Rig.DISK_STATUS).then(Rig.RESET, Rig.CLEAR, Rig.STATUS, LOOP);
-        reset.run(10);
-        Check.same("none behind RESET", reset.trappedBy(), 0);
+        undisturbed("behind RESET", reset, 10);
     }
 
     private static void interruptOfUser() {
-        Check.sentence("a trap (of the user, by an interrupt)");
         Rig rig = Rig.with().vectors().move(ENABLED, Rig.KEYBOARD_STATUS).move(Rig.USER, Rig.STATUS).moved().then(LOOP).run(1);
         rig.machine.key(65);
         rig.run(1);
@@ -427,7 +433,6 @@ public final class BoundaryTrapsTest {
     }
 
     private static void interruptWrong() {
-        Check.sentence("When there is something missing in a trap: the machine HALTS (by an interrupt)");
         for (int stack : new int[] {0, 2, 511, 2000}) {
             Rig rig = Rig.with(Rig.CLEAR, Rig.STATUS).move(ENABLED, Rig.PRINTER_STATUS).then(LOOP).register(6, stack).run(1);
             Check.same("run(5)", rig.machine.run(5), 1);

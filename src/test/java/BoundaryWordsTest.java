@@ -3,34 +3,62 @@ public final class BoundaryWordsTest {
     private static final int DATA = 800;
 
     public static void main(String[] args) {
-        words();
-        memory();
-        deviceRegisters();
-        missing();
-        bytes();
-        registers();
-        stacks();
-        status();
-        growWords();
-        growBytes();
-        growPointers();
-        fall();
-        growWraps();
-        fallWraps();
-        indexWraps();
-        nextWordFirst();
-        growsBeforeRead();
-        growsBeforeWritten();
-        lowerByte();
-        wholeWithSign();
-        sevenGrows();
-        sevenStaysMissing();
-        sevenStaysAborted();
-        nextWordStays();
-        sevenWraps();
-        sourceFirst();
-        readThenWritten();
-        notRead();
+        Check.sentence("WORDS have 16 bits, as numbers without a sign 0 .. 65535, with one -32768 .. 32767",
+                BoundaryWordsTest::words);
+        Check.sentence("MEMORY has 512 words at the even ADDRESSES 0 .. 1022",
+                BoundaryWordsTest::memory);
+        Check.sentence("an even address from 57344 on is a DEVICE register",
+                BoundaryWordsTest::deviceRegisters);
+        Check.sentence("all others are MISSING",
+                BoundaryWordsTest::missing);
+        Check.sentence("The byte at an even address is the lower one of its word, at an odd address the higher one of the word before",
+                BoundaryWordsTest::bytes);
+        Check.sentence("REGISTERS 0 .. 7; 7 where it goes on",
+                BoundaryWordsTest::registers);
+        Check.sentence("6 is the stack's (each MODE has its own)",
+                BoundaryWordsTest::stacks);
+        Check.sentence("STATUS: its other bits are 0",
+                BoundaryWordsTest::status);
+        Check.sentence("2 at [r], which grows (by 2)",
+                BoundaryWordsTest::growWords);
+        Check.sentence("by 1 for bytes, but 2 for r 6 and 7",
+                BoundaryWordsTest::growBytes);
+        Check.sentence("3 at the word at [r], which grows by 2; 5 [r] falls by 2 (bytes, too)",
+                BoundaryWordsTest::growPointers);
+        Check.sentence("4 [r] falls (as in 2)",
+                BoundaryWordsTest::fall);
+        Check.sentence("[r] grows behind 65535 (words have 16 bits)",
+                BoundaryWordsTest::growWraps);
+        Check.sentence("[r] falls below 0 (words have 16 bits)",
+                BoundaryWordsTest::fallWraps);
+        Check.sentence("6 at [r] plus the next word (words have 16 bits)",
+                BoundaryWordsTest::indexWraps);
+        Check.sentence("(which is read before [r] is)",
+                BoundaryWordsTest::nextWordFirst);
+        Check.sentence("(A register grows or falls before anything is read there)",
+                BoundaryWordsTest::growsBeforeRead);
+        Check.sentence("(A register grows or falls before anything is written there)",
+                BoundaryWordsTest::growsBeforeWritten);
+        Check.sentence("A byte operation on a register works on its lower byte",
+                BoundaryWordsTest::lowerByte);
+        Check.sentence("MOVB to a register writes the whole, with the sign",
+                BoundaryWordsTest::wholeWithSign);
+        Check.sentence("the word that is read first makes register 7 grow by 2",
+                BoundaryWordsTest::sevenGrows);
+        Check.sentence("(unless it is missing)",
+                BoundaryWordsTest::sevenStaysMissing);
+        Check.sentence("(or there is an abort)",
+                BoundaryWordsTest::sevenStaysAborted);
+        Check.sentence("a next word of modes 6 and 7 likewise",
+                BoundaryWordsTest::nextWordStays);
+        Check.sentence("register 7 grows behind 65535 (words have 16 bits)",
+                BoundaryWordsTest::sevenWraps);
+        Check.sentence("Operand s is found and read before d is",
+                BoundaryWordsTest::sourceFirst);
+        Check.sentence("what is changed is read, then written",
+                BoundaryWordsTest::readThenWritten);
+        Check.sentence("(MOV, CLR, SXT, MTPI do not read d)",
+                BoundaryWordsTest::notRead);
         Check.end();
     }
 
@@ -41,7 +69,6 @@ public final class BoundaryWordsTest {
     // Words, memory, registers, status.
 
     private static void words() {
-        Check.sentence("WORDS have 16 bits, as numbers without a sign 0 .. 65535, with one -32768 .. 32767");
         int[][] cases = {{05200, 65535, 0}, {05200, 32767, 32768}, {05300, 0, 65535}, {05300, 32768, 32767},
             {05400, 1, 65535}, {05400, 32768, 32768}, {05100, 0, 65535}, {060000, 32768, 0}, {060000, 65535, 65534},
             {06300, 65535, 65534}, {06300, 32768, 0}, {0160001, 1, 65535}};
@@ -53,7 +80,6 @@ public final class BoundaryWordsTest {
     }
 
     private static void memory() {
-        Check.sentence("MEMORY has 512 words at the even ADDRESSES 0 .. 1022");
         for (int address : new int[] {0, 2, 254, 256, 1020, 1022}) {
             Rig rig = Rig.with(010011, 011102, 05037, address).register(0, 65535).register(1, address);
             rig.memory(10, 3).run(2);
@@ -66,7 +92,6 @@ public final class BoundaryWordsTest {
     }
 
     private static void deviceRegisters() {
-        Check.sentence("an even address from 57344 on is a DEVICE register");
         for (int address : new int[] {57344, 57346, 57374, 57376, 57406, 57408, 57424, 57446, 57470}) {
             Rig rig = Rig.with(05711).vectors().register(1, address).run(1);
             Check.same("trap at " + address, rig.trappedBy(), 0);
@@ -77,7 +102,6 @@ public final class BoundaryWordsTest {
     }
 
     private static void missing() {
-        Check.sentence("all others are MISSING");
         for (int address : new int[] {1024, 1026, 2046, 2048, 8192, 32766, 32768, 57340, 57342, 57410, 57422, 57432, 57438, 57448,
             57468, 57472, 65532, 65534}) {
             for (int word : new int[] {05711, 05011, 0105711, 0105011}) {
@@ -90,7 +114,6 @@ public final class BoundaryWordsTest {
     }
 
     private static void bytes() {
-        Check.sentence("The byte at an even address is the lower one of its word, at an odd address the higher one of the word before");
         for (int address : new int[] {0, 1020, 1022}) {
             Rig rig = Rig.with(0112102, 0111103, 0105011, 0105041).register(1, address).memory(address, 0x7E3C).run(2);
             Check.same("the byte at " + address, rig.r(2), 0x3C);
@@ -107,16 +130,15 @@ public final class BoundaryWordsTest {
     }
 
     private static void registers() {
-        Check.sentence("REGISTERS 0 .. 7; 7 where it goes on");
         for (int r = 0; r < 8; r++) {
             Rig rig = Rig.with(05200 | r).register(r, r == 7 ? Rig.CODE : 65535).run(1);
             Check.same("register " + r, rig.r(r), r == 7 ? Rig.CODE + 3 : 0);
             Check.same("7", rig.r(7), r == 7 ? Rig.CODE + 3 : Rig.CODE + 2);
         }
+        Check.same("7 as an instruction finds it", Rig.with(010700).run(1).r(0), Rig.CODE + 2);
     }
 
     private static void stacks() {
-        Check.sentence("6 is the stack's (each MODE has its own)");
         Rig rig = Rig.user(65535, 0104400).memory(28, 300, 0).memory(300, 05006, 012746, 7);
         Check.same("6 of the user", rig.r(6), 65535);
         rig.run(1);
@@ -128,7 +150,6 @@ public final class BoundaryWordsTest {
     }
 
     private static void status() {
-        Check.sentence("STATUS: its other bits are 0");
         Rig rti = Rig.with(Rig.RTI).register(6, 700).memory(700, 600, 65535).run(1);
         Check.same("by RTI", rti.r(8), 0x50EF);
         Rig trap = Rig.with(3).memory(12, 600, 65535).run(1);
@@ -155,7 +176,6 @@ public final class BoundaryWordsTest {
     }
 
     private static void growWords() {
-        Check.sentence("2 at [r], which grows (by 2)");
         for (int r = 0; r < 8; r++) {
             steps(05720, r, 2);
             steps(05020, r, 2);
@@ -163,7 +183,6 @@ public final class BoundaryWordsTest {
     }
 
     private static void growBytes() {
-        Check.sentence("by 1 for bytes, but 2 for r 6 and 7");
         for (int r = 0; r < 8; r++) {
             steps(0105720, r, r < 6 ? 1 : 2);
             steps(0105020, r, r < 6 ? 1 : 2);
@@ -171,7 +190,6 @@ public final class BoundaryWordsTest {
     }
 
     private static void growPointers() {
-        Check.sentence("3 at the word at [r], which grows by 2; 5 [r] falls by 2 (bytes, too)");
         for (int r = 0; r < 7; r++) {
             steps(05730, r, 2);
             steps(0105730, r, 2);
@@ -181,7 +199,6 @@ public final class BoundaryWordsTest {
     }
 
     private static void fall() {
-        Check.sentence("4 [r] falls (as in 2)");
         for (int r = 0; r < 8; r++) {
             steps(05740, r, -2);
             steps(0105740, r, r < 6 ? -1 : -2);
@@ -189,7 +206,6 @@ public final class BoundaryWordsTest {
     }
 
     private static void growWraps() {
-        Check.sentence("[r] grows behind 65535 (words have 16 bits)");
         for (int[] one : new int[][] {{05721, 65534, 0}, {0105721, 65535, 0}, {0105721, 65534, 65535}, {05721, 65535, 1},
             {05731, 65534, 0}}) {
             Rig rig = Rig.with(one[0]).vectors().register(1, one[1]).run(1);
@@ -202,7 +218,6 @@ public final class BoundaryWordsTest {
     }
 
     private static void fallWraps() {
-        Check.sentence("[r] falls below 0 (words have 16 bits)");
         for (int[] one : new int[][] {{05741, 0, 65534}, {0105741, 0, 65535}, {05741, 1, 65535}, {05751, 0, 65534}}) {
             Rig rig = Rig.with(one[0]).vectors().register(1, one[1]).run(1);
             Check.same("register 1 behind " + octal(one[0]) + " at " + one[1], rig.r(1), one[2]);
@@ -214,7 +229,6 @@ public final class BoundaryWordsTest {
     }
 
     private static void indexWraps() {
-        Check.sentence("6 at [r] plus the next word (words have 16 bits)");
         int[][] cases = {{65534, 802, DATA}, {65535, 801, DATA}, {DATA, 0, DATA}, {DATA + 2, 65534, DATA}, {0, DATA, DATA}};
         for (int[] one : cases) {
             Rig rig = Rig.with(016100, one[1], 017102, one[1]).register(1, one[0]).memory(one[2], 900).memory(900, 77).run(2);
@@ -225,7 +239,6 @@ public final class BoundaryWordsTest {
     }
 
     private static void nextWordFirst() {
-        Check.sentence("(which is read before [r] is)");
         Rig rig = Rig.with(016700, 2, 0240, 4321, 017702, 0, Rig.CODE + 6);
         rig.run(2);
         Check.same("mode 6 of 7 counts from behind the next word", rig.r(0), 4321);
@@ -238,7 +251,6 @@ public final class BoundaryWordsTest {
     }
 
     private static void growsBeforeRead() {
-        Check.sentence("(A register grows or falls before anything is read there)");
         int[][] cases = {{05721, 2}, {05731, 2}, {05741, -2}, {05751, -2}, {0105721, 1}, {0105741, -1}, {021100, 0}, {022100, 2},
             {023100, 2}, {024100, -2}, {025100, -2}, {0122100, 1}, {0124100, -1}};
         for (int[] one : cases) {
@@ -253,7 +265,6 @@ public final class BoundaryWordsTest {
     }
 
     private static void growsBeforeWritten() {
-        Check.sentence("(A register grows or falls before anything is written there)");
         int[][] cases = {{05021, 2}, {05041, -2}, {0105021, 1}, {0105041, -1}, {010021, 2}, {010041, -2}, {0110021, 1}, {0110041, -1},
             {05011, 0}};
         for (int[] one : cases) {
@@ -271,7 +282,6 @@ public final class BoundaryWordsTest {
     }
 
     private static void lowerByte() {
-        Check.sentence("A byte operation on a register works on its lower byte");
         int[][] cases = {{0105000, 0xFF00, 0xFF00}, {0105000, 0x12FF, 0x1200}, {0105200, 0x12FF, 0x1200}, {0105300, 0x1200, 0x12FF},
             {0105100, 0x1200, 0x12FF}, {0105400, 0x1201, 0x12FF}, {0106300, 0x1280, 0x1200}, {0106000, 0x1301, 0x1300},
             {0106200, 0x1380, 0x13C0}, {0106100, 0x1280, 0x1200}};
@@ -292,7 +302,6 @@ public final class BoundaryWordsTest {
     }
 
     private static void wholeWithSign() {
-        Check.sentence("MOVB to a register writes the whole, with the sign");
         for (int[] one : new int[][] {{0, 0}, {1, 1}, {0x7F, 0x7F}, {0x80, 0xFF80}, {0xFF, 0xFFFF}, {0x1200, 0}, {0x127F, 0x7F},
             {0x1280, 0xFF80}}) {
             Rig rig = Rig.with(0110001, 0110000).register(0, one[0]).register(1, 0x5555).run(1);
@@ -307,7 +316,6 @@ public final class BoundaryWordsTest {
     // The words of an instruction.
 
     private static void sevenGrows() {
-        Check.sentence("the word that is read first makes register 7 grow by 2");
         for (int seven : new int[] {0, 2, 1020, 1022}) {
             Rig rig = Rig.with().memory(seven, Rig.NOP);
             rig.machine.start(seven);
@@ -317,7 +325,6 @@ public final class BoundaryWordsTest {
     }
 
     private static void sevenStaysMissing() {
-        Check.sentence("(unless it is missing)");
         for (int seven : new int[] {1024, 1026, 57342, 57410, 57472, 65534, 1, 513, 1023, 65535}) {
             Rig rig = Rig.with().vectors();
             rig.machine.start(seven);
@@ -328,7 +335,6 @@ public final class BoundaryWordsTest {
     }
 
     private static void sevenStaysAborted() {
-        Check.sentence("(or there is an abort)");
         Rig rig = Rig.mapped().page(0, 1, 0x0002, 12).move(1, Rig.CONTROL).moved();
         for (int seven : new int[] {8192 + 64, 16384}) {
             rig.register(7, seven).register(6, Rig.STACK).run(1);
@@ -340,7 +346,6 @@ public final class BoundaryWordsTest {
     }
 
     private static void nextWordStays() {
-        Check.sentence("a next word of modes 6 and 7 likewise");
         for (int word : new int[] {05761, 05771, 016100, 017100, 010061, 010071}) {
             Rig rig = Rig.with().vectors().register(1, DATA).memory(1022, word);
             rig.machine.start(1022);
@@ -359,7 +364,6 @@ public final class BoundaryWordsTest {
     }
 
     private static void sevenWraps() {
-        Check.sentence("register 7 grows behind 65535 (words have 16 bits)");
         // The kernel's page 7 ends at the end of memory, so that 65534 is a word.
         Rig rig = Rig.mapped().move(1, Rig.CONTROL).move(912, Rig.base(0, 7)).moved();
         rig.memory(1022, Rig.NOP).register(7, 65534).run(1);
@@ -376,7 +380,6 @@ public final class BoundaryWordsTest {
     }
 
     private static void sourceFirst() {
-        Check.sentence("Operand s is found and read before d is");
         Rig register = Rig.with(060121).register(1, DATA).memory(DATA, 5).run(1);
         Check.same("ADD R1, (R1)+ reads R1 before it grows", register.at(DATA), DATA + 5);
         Rig moved = Rig.with(022121).register(1, DATA).memory(DATA, 5, 4).run(1);
@@ -404,7 +407,6 @@ public final class BoundaryWordsTest {
     }
 
     private static void readThenWritten() {
-        Check.sentence("what is changed is read, then written");
         for (int word : new int[] {042737, 052737, 062737, 0162737, 0142737, 0152737}) {
             reads(word, 0, true);
         }
@@ -420,7 +422,6 @@ public final class BoundaryWordsTest {
     }
 
     private static void notRead() {
-        Check.sentence("(MOV, CLR, SXT, MTPI do not read d)");
         reads(012737, 0, false);
         reads(0112737, 0, false);
         for (int word : new int[] {05037, 0105037, 06737, 06637}) {

@@ -9,23 +9,22 @@ final class Check {
     private static int wrong = 0;
     private static int count = 0;
     private static int sentences = 0;
-    private static int wrongBefore = 0;
-    private static String about = "";
 
     private Check() {
     }
 
-    /** What comes now is about this sentence of the document; what was before it is told, when it was broken. */
-    static void sentence(String text) {
-        tellBroken();
+    /** Does a test of one sentence of the document, and tells when that sentence is broken. */
+    static void sentence(String text, Runnable test) {
         sentences++;
-        about = text;
-        wrongBefore = wrong;
-    }
-
-    private static void tellBroken() {
-        if (!about.isEmpty() && wrong != wrongBefore) {
-            System.out.println("BROKEN: " + about);
+        int before = wrong;
+        try {
+            test.run();
+        } catch (RuntimeException e) {
+            wrong++;
+            System.out.println("thrown: " + e + " at " + e.getStackTrace()[0]);
+        }
+        if (wrong != before) {
+            System.out.println("BROKEN: " + text);
         }
     }
 
@@ -65,7 +64,6 @@ final class Check {
     }
 
     static void end() {
-        tellBroken();
         if (sentences > 0) {
             System.out.println(sentences + " sentences");
         }
