@@ -11,6 +11,8 @@ public final class BoundaryCallsTest {
                 BoundaryCallsTest::newObject);
         Check.sentence("1: the map is off, kernel; printer and disk are ready",
                 BoundaryCallsTest::newDevices);
+        Check.sentence("1: printer and disk are ready (nothing goes on in them)",
+                BoundaryCallsTest::newDevicesRest);
         Check.sentence("1: halted",
                 BoundaryCallsTest::newIsHalted);
         Check.sentence("2: Writes a word of memory",
@@ -121,6 +123,17 @@ public final class BoundaryCallsTest {
         Check.same("printer", m.device(Rig.PRINTER_STATUS), 128);
         Check.same("disk", m.device(Rig.DISK_STATUS), 128);
         Check.same("keyboard", m.device(Rig.KEYBOARD_STATUS), 0);
+    }
+
+    private static void newDevicesRest() {
+        Rig rig = Rig.with();
+        rig.machine.load(0, 0, 1234);
+        rig.move(3, Rig.DISK_COUNT).then(0777).moved();
+        for (int i = 0; i < 12; i++) {
+            Check.same("the word at 0", rig.at(0), 0);
+            Check.same("printed(-1)", rig.machine.printed(-1), 0);
+            rig.run(1);
+        }
     }
 
     private static void newIsHalted() {

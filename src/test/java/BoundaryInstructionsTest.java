@@ -16,6 +16,8 @@ public final class BoundaryInstructionsTest {
                 BoundaryInstructionsTest::exclusiveOr);
         Check.sentence("077rnn SOB: r falls by 1 (0 becomes 65535)",
                 BoundaryInstructionsTest::countDown);
+        Check.sentence("077rnn SOB: r falls by 1, register 7 falls by 2 nn (r is 7)",
+                BoundaryInstructionsTest::countDownSeven);
         Check.sentence("when it is not 0 then",
                 BoundaryInstructionsTest::countDownAtZero);
         Check.sentence("register 7 falls by 2 nn",
@@ -142,6 +144,15 @@ public final class BoundaryInstructionsTest {
                 Rig rig = Rig.with(077000 | r << 6).register(r, one[0]).run(1);
                 Check.same("register " + r, rig.r(r), one[1]);
             }
+        }
+    }
+
+    private static void countDownSeven() {
+        for (int nn : new int[] {0, 1, 63}) {
+            Rig rig = Rig.with(077700 | nn).vectors().run(1);
+            Check.same("7 of SOB of 7 by " + nn, rig.r(7), Rig.CODE + 1 - 2 * nn);
+            rig.run(1);
+            Check.same("what goes on at an odd address is trapped by", rig.trappedBy(), 4);
         }
     }
 

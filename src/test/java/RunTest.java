@@ -5,6 +5,7 @@ public final class RunTest {
         refuses();
         halts();
         waits();
+        readme();
         Check.end();
     }
 
@@ -63,5 +64,26 @@ public final class RunTest {
         rig.machine.start(Rig.CODE + 2);
         Check.same("run", rig.machine.run(3), 1);
         Check.same("state", rig.machine.state(), 2);
+    }
+
+    /** What README.md shows. */
+    private static void readme() {
+        UnibusMachine machine = new UnibusMachine();
+        machine.deposit(64, 012700);
+        machine.deposit(66, 5);
+        machine.deposit(68, 0);
+        machine.set(6, 512);
+        machine.start(64);
+        Check.same("run(40)", machine.run(40), 2);
+        Check.same("register(0)", machine.register(0), 5);
+        Check.same("state()", machine.state(), 2);
+        machine.key(65);
+        Check.same("device(57424)", machine.device(57424), 128);
+        Check.same("device(57426)", machine.device(57426), 65);
+        Check.same("device(57426) again", machine.device(57426), 65);
+        Check.same("device(57424) behind it", machine.device(57424), 128);
+        machine.load(7, 15, 1234);
+        Check.same("disk(7, 15)", machine.disk(7, 15), 1234);
+        Check.same("printed(-1)", machine.printed(-1), 0);
     }
 }
